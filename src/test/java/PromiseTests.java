@@ -1,0 +1,1011 @@
+import java.util.function.IntSupplier;
+
+/** For each promise of ../shared/DOC.md: ordinary calls, the edges that it names, wrong arguments. */
+public final class PromiseTests {
+    private static final int UNKNOWN = -1;
+    private static final int BAD_VALUE = -2;
+    private static final int FULL = -3;
+    private static final int NOT_POSSIBLE = -4;
+    private static final int NONE = -5;
+    private static final int LOW = Integer.MIN_VALUE;
+    private static final int HIGH = Integer.MAX_VALUE;
+
+    private static int wrong = 0;
+    private static int promise = 0;
+    private static int checks = 0;
+
+    private PromiseTests() {
+    }
+
+    public static void main(String[] args) {
+        Runnable[] promises = {
+            PromiseTests::newObject, PromiseTests::swap, PromiseTests::mark, PromiseTests::lean,
+            PromiseTests::changeAll, PromiseTests::set, PromiseTests::print, PromiseTests::cutSheet,
+            PromiseTests::cutPack, PromiseTests::shuffle, PromiseTests::deal, PromiseTests::sell,
+            PromiseTests::pulp, PromiseTests::type, PromiseTests::clearText, PromiseTests::fault,
+            PromiseTests::undo, PromiseTests::keep, PromiseTests::restore, PromiseTests::block,
+            PromiseTests::cardOf, PromiseTests::sheet, PromiseTests::pack, PromiseTests::count,
+            PromiseTests::why, PromiseTests::chances, PromiseTests::ifPrinted,
+            PromiseTests::worstFlaw, PromiseTests::bestWay, PromiseTests::backIn};
+        for (Runnable test : promises) {
+            promise++;
+            int before = checks;
+            test.run();
+            if (checks == before) {
+                wrong++;
+                System.out.println("promise " + promise + " has no test");
+            }
+        }
+        System.out.println(promise + " promises, " + checks + " checks, " + wrong + " wrong");
+        if (wrong != 0) {
+            System.exit(1);
+        }
+    }
+
+    private static void due(String call, double got, double want) {
+        checks++;
+        if (got != want) {
+            wrong++;
+            System.out.println("promise " + promise + ": " + call + " answered " + got + ", due is " + want);
+        }
+    }
+
+    /** An error, or NONE, changes nothing: all that is told stays, and no state is recorded. */
+    private static void refused(CardSheets x, String call, IntSupplier act, int want) {
+        String before = told(x);
+        due(call, act.getAsInt(), want);
+        checks++;
+        if (!before.equals(told(x))) {
+            wrong++;
+            System.out.println("promise " + promise + ": " + call + " changed something");
+        }
+    }
+
+    /** An act records the state before it: undo brings that back. */
+    private static void acts(CardSheets x, String call, IntSupplier act, int want) {
+        String before = toldButHistory(x);
+        int states = x.count(12);
+        due(call, act.getAsInt(), want);
+        due(call + " records", x.count(12), Math.min(states + 1, 4));
+        String after = toldButHistory(x);
+        due(call + ", undone", x.undo(), Math.min(states, 3));
+        checks++;
+        if (!before.equals(toldButHistory(x))) {
+            wrong++;
+            System.out.println("promise " + promise + ": undo after " + call + " does not restore");
+        }
+        act.getAsInt();
+        checks++;
+        if (!after.equals(toldButHistory(x))) {
+            wrong++;
+            System.out.println("promise " + promise + ": " + call + " done again differs");
+        }
+    }
+
+    private static String told(CardSheets x) {
+        return toldButHistory(x) + " states " + x.count(12);
+    }
+
+    private static String toldButHistory(CardSheets x) {
+        StringBuilder all = new StringBuilder();
+        for (int what = 0; what <= 17; what++) {
+            if (what != 12) {
+                all.append(x.count(what)).append(' ');
+            }
+        }
+        for (int k = 0; k < 24; k++) {
+            all.append(x.block(k, 0)).append(' ').append(x.block(k, 1)).append(' ');
+            for (int what = 0; what < 4; what++) {
+                all.append(x.cardOf(k, what)).append(' ');
+            }
+            all.append(x.pack(k, 0)).append(' ');
+            for (int sheet = 0; sheet < 6; sheet++) {
+                all.append(x.sheet(sheet, k, 0)).append(' ').append(x.sheet(sheet, k, 1)).append(' ');
+            }
+        }
+        return all.append(x.why()).append(' ').append(x.fault()).toString();
+    }
+
+    private static void write(CardSheets x, String text) {
+        x.clearText();
+        for (int k = 0; k < text.length(); k++) {
+            x.type(text.charAt(k));
+        }
+    }
+
+    private static void change(CardSheets x, String text) {
+        write(x, text);
+        int changes = text.split(";").length;
+        due("changeAll of " + text, x.changeAll(), changes);
+        x.clearText();
+    }
+
+    private static CardSheets withPack(int way) {
+        CardSheets x = new CardSheets();
+        x.print(false);
+        x.cutSheet(way);
+        return x;
+    }
+
+    private static void order(CardSheets x, int... cards) {
+        due("cards of the pack", x.count(3), cards.length);
+        for (int place = 0; place < cards.length; place++) {
+            due("card at the place " + place, x.pack(place, 0), cards[place]);
+        }
+    }
+
+    private static void newObject() {
+        CardSheets x = new CardSheets();
+        int[] counts = {0, 0, 0, 0, 0, 0, 0, 0, 0, 0, 0, 0, 0, 0, 10, 3, 4, 12};
+        for (int what = 0; what < counts.length; what++) {
+            due("count " + what, x.count(what), counts[what]);
+        }
+        for (int k = 0; k < 24; k++) {
+            due("card of a cell", x.block(k, 0), k);
+            due("marks of a cell", x.block(k, 1), 0);
+            due("lean", x.cardOf(k, 1), 100);
+        }
+        due("undo", x.undo(), NONE);
+        due("restore", x.restore(), NONE);
+        CardSheets other = new CardSheets();
+        x.mark(3, 1, true);
+        x.type('s');
+        due("another object", other.block(3, 1), 0);
+        due("another object's text", other.count(13), 0);
+    }
+
+    private static void swap() {
+        CardSheets x = new CardSheets();
+        acts(x, "swap(0, 23)", () -> x.swap(0, 23), 23);
+        due("cell 0", x.block(0, 0), 23);
+        due("cell 23", x.block(23, 0), 0);
+        acts(x, "swap(23, 7)", () -> x.swap(23, 7), 7);
+        due("cell of 0", x.cardOf(0, 0), 7);
+        due("cell of 7", x.cardOf(7, 0), 23);
+        x.mark(2, 0, true);
+        x.swap(2, 3);
+        due("marks stay at the cell", x.block(2, 1), 1);
+        refused(x, "swap(6, 6)", () -> x.swap(6, 6), NONE);
+        for (int bad : new int[] {-1, 24, LOW, HIGH}) {
+            refused(x, "swap bad cell", () -> x.swap(bad, 1), UNKNOWN);
+            refused(x, "swap bad other", () -> x.swap(1, bad), UNKNOWN);
+        }
+        refused(x, "swap(24, 24)", () -> x.swap(24, 24), UNKNOWN);
+    }
+
+    private static void mark() {
+        CardSheets x = new CardSheets();
+        acts(x, "mark(23, 3, true)", () -> x.mark(23, 3, true), 8);
+        acts(x, "mark(23, 0, true)", () -> x.mark(23, 0, true), 9);
+        refused(x, "mark(23, 0, true)", () -> x.mark(23, 0, true), NONE);
+        acts(x, "mark(23, 3, false)", () -> x.mark(23, 3, false), 1);
+        refused(x, "mark(23, 3, false)", () -> x.mark(23, 3, false), NONE);
+        refused(x, "mark(0, 0, false)", () -> x.mark(0, 0, false), NONE);
+        acts(x, "mark(0, 2, true)", () -> x.mark(0, 2, true), 4);
+        for (int bad : new int[] {-1, 24, LOW, HIGH}) {
+            refused(x, "mark bad cell", () -> x.mark(bad, 0, true), UNKNOWN);
+        }
+        for (int bad : new int[] {-1, 4, 32, LOW, HIGH}) {
+            refused(x, "mark bad mark", () -> x.mark(0, bad, true), UNKNOWN);
+            refused(x, "mark bad mark", () -> x.mark(0, bad, false), UNKNOWN);
+        }
+    }
+
+    private static void lean() {
+        CardSheets x = new CardSheets();
+        acts(x, "lean(3, 9)", () -> x.lean(3, 9), 100);
+        acts(x, "lean(3, -9)", () -> x.lean(3, -9), 109);
+        acts(x, "lean(3, 0)", () -> x.lean(3, 0), 91);
+        refused(x, "lean(3, 0)", () -> x.lean(3, 0), NONE);
+        acts(x, "lean(23, -1)", () -> x.lean(23, -1), 100);
+        due("lean told", x.cardOf(23, 1), 99);
+        acts(x, "lean(10, 1)", () -> x.lean(10, 1), 100);
+        for (int card : new int[] {0, 1, 2, 6, 7, 8, 12, 18, 20}) {
+            refused(x, "lean of no court", () -> x.lean(card, 1), NOT_POSSIBLE);
+            refused(x, "lean 0 of no court", () -> x.lean(card, 0), NOT_POSSIBLE);
+            refused(x, "bad lean of no court", () -> x.lean(card, 10), BAD_VALUE);
+        }
+        for (int bad : new int[] {-10, 10, LOW, HIGH}) {
+            refused(x, "bad lean", () -> x.lean(3, bad), BAD_VALUE);
+        }
+        for (int bad : new int[] {-1, 24, LOW, HIGH}) {
+            refused(x, "lean of bad card", () -> x.lean(bad, 1), UNKNOWN);
+            refused(x, "bad lean of bad card", () -> x.lean(bad, 10), UNKNOWN);
+        }
+    }
+
+    private static void changeAll() {
+        CardSheets x = new CardSheets();
+        write(x, "s0/23;s23/5;m7=3;m7=1;u7=3;l9=-9;l10=9");
+        acts(x, "changeAll", x::changeAll, 7);
+        due("cell 0", x.block(0, 0), 23);
+        due("cell 23", x.block(23, 0), 5);
+        due("cell 5", x.block(5, 0), 0);
+        due("marks of 7", x.block(7, 1), 2);
+        due("lean of 9", x.cardOf(9, 1), 91);
+        due("lean of 10", x.cardOf(10, 1), 109);
+        due("the text stays", x.count(13), 38);
+        write(x, "l9=0;l9=0;m7=1;u0=0;s4/4");
+        acts(x, "changes that are so already", x::changeAll, 5);
+        acts(x, "all of them so already", x::changeAll, 5);
+        write(x, "m0=0;m0=1;m0=2;m0=3;m1=0;m1=1;m1=2;m1=3;u0=0;u1=0;u2=0;m2=3");
+        due("length 59", x.count(13), 59);
+        acts(x, "12 changes", x::changeAll, 12);
+        due("marks of 0", x.block(0, 1), 14);
+        due("marks of 2", x.block(2, 1), 8);
+        write(x, "m3=0;l2=0");
+        refused(x, "no court", x::changeAll, NOT_POSSIBLE);
+        write(x, "l3=1;l8=-1;m3=0");
+        refused(x, "no court in the middle", x::changeAll, NOT_POSSIBLE);
+        write(x, "m3=0;l2=1;");
+        refused(x, "fault ahead of no court", x::changeAll, -110);
+        write(x, "m3=0;x");
+        refused(x, "fault", x::changeAll, -105);
+        x.clearText();
+        refused(x, "empty text", x::changeAll, -100);
+        write(x, "m0=0;m0=1;m0=2;m0=3;m1=0;m1=1;m1=2;m1=3;u0=0;u1=0;u2=0;m2=3;");
+        refused(x, "fault at the end of 60", x::changeAll, -160);
+    }
+
+    private static void set() {
+        CardSheets x = new CardSheets();
+        int[] first = {10, 3, 4, 12};
+        int[] least = {1, 0, 0, 1};
+        int[] most = {99, 9, 24, 99};
+        for (int which = 0; which < 4; which++) {
+            int k = which;
+            refused(x, "set as it is", () -> x.set(k, first[k]), NONE);
+            acts(x, "set to the least", () -> x.set(k, least[k]), first[k]);
+            acts(x, "set to the most", () -> x.set(k, most[k]), least[k]);
+            due("told", x.count(14 + k), most[k]);
+            refused(x, "set too low", () -> x.set(k, least[k] - 1), BAD_VALUE);
+            refused(x, "set too high", () -> x.set(k, most[k] + 1), BAD_VALUE);
+            refused(x, "set far too low", () -> x.set(k, LOW), BAD_VALUE);
+            refused(x, "set far too high", () -> x.set(k, HIGH), BAD_VALUE);
+        }
+        for (int bad : new int[] {-1, 4, LOW, HIGH}) {
+            refused(x, "set bad", () -> x.set(bad, 1), BAD_VALUE);
+            refused(x, "set bad to 0", () -> x.set(bad, 0), BAD_VALUE);
+        }
+    }
+
+    private static void print() {
+        CardSheets x = new CardSheets();
+        x.mark(0, 2, true);
+        x.mark(22, 0, true);
+        acts(x, "print", () -> x.print(false), 1);
+        acts(x, "print turned", () -> x.print(true), 2);
+        due("not turned, cell 0", x.sheet(1, 0, 1), 4);
+        due("not turned, cell 22", x.sheet(1, 22, 1), 1);
+        due("turned, cell 23", x.sheet(0, 23, 1), 4);
+        due("turned, cell 1", x.sheet(0, 1, 1), 1);
+        due("turned, cell 0", x.sheet(0, 0, 1), 0);
+        due("turned cards stay", x.sheet(0, 0, 0), 0);
+        x.swap(0, 1);
+        due("a sheet keeps its cards", x.sheet(0, 0, 0), 0);
+        for (int sheets = 3; sheets <= 6; sheets++) {
+            int k = sheets;
+            acts(x, "print", () -> x.print(false), k);
+        }
+        refused(x, "print on 6", () -> x.print(false), FULL);
+        refused(x, "print turned on 6", () -> x.print(true), FULL);
+        due("printed", x.count(1), 6);
+        wearOfTheBacks();
+        wearIsCountedBySheets();
+    }
+
+    private static void wearOfTheBacks() {
+        CardSheets x = new CardSheets();
+        x.set(0, 7);
+        for (int times = 1; times <= 56; times++) {
+            x.print(times % 2 == 0);
+            if (times == 7) {
+                due("the mark is not on this sheet", x.sheet(0, 7, 1), 0);
+                due("it is behind this sheet", x.block(7, 1), 2);
+            }
+            if (times == 8) {
+                due("it is on the next one, which is turned", x.sheet(0, 16, 1), 2);
+            }
+            x.cutSheet(0);
+            x.pulp();
+        }
+        int[] marks = new int[24];
+        for (int times = 7; times <= 56; times += 7) {
+            marks[times % 24] |= 1 << times / 7 % 4;
+        }
+        for (int cell = 0; cell < 24; cell++) {
+            due("wear of the cell " + cell, x.block(cell, 1), marks[cell]);
+        }
+    }
+
+    private static void wearIsCountedBySheets() {
+        CardSheets x = new CardSheets();
+        for (int times = 1; times <= 6; times++) {
+            x.print(false);
+        }
+        due("no wear before 10", x.count(10), 0);
+        x.cutSheet(0);
+        x.pulp();
+        x.set(0, 7);
+        x.mark(7, 1, true);
+        x.print(false);
+        due("a mark that is there stays", x.block(7, 1), 2);
+        x.undo();
+        due("undone, the backs are printed 6 times", x.count(1), 6);
+        x.mark(7, 1, false);
+        x.print(false);
+        due("the 7th printing again", x.block(7, 1), 2);
+    }
+
+    private static void cutSheet() {
+        int[][] orders = {
+            {0, 1, 2, 3, 4, 5, 6, 7, 8, 9, 10, 11, 12, 13, 14, 15, 16, 17, 18, 19, 20, 21, 22, 23},
+            {0, 6, 12, 18, 1, 7, 13, 19, 2, 8, 14, 20, 3, 9, 15, 21, 4, 10, 16, 22, 5, 11, 17, 23},
+            {0, 1, 2, 3, 4, 5, 11, 10, 9, 8, 7, 6, 12, 13, 14, 15, 16, 17, 23, 22, 21, 20, 19, 18},
+            {0, 6, 12, 18, 19, 13, 7, 1, 2, 8, 14, 20, 21, 15, 9, 3, 4, 10, 16, 22, 23, 17, 11, 5}};
+        for (int way = 0; way < 4; way++) {
+            CardSheets x = new CardSheets();
+            x.print(false);
+            int k = way;
+            acts(x, "cutSheet " + way, () -> x.cutSheet(k), 0);
+            order(x, orders[way]);
+        }
+        CardSheets x = new CardSheets();
+        refused(x, "empty pile", () -> x.cutSheet(0), NOT_POSSIBLE);
+        refused(x, "empty pile, bad way", () -> x.cutSheet(4), BAD_VALUE);
+        x.print(false);
+        x.swap(0, 9);
+        x.mark(0, 1, true);
+        x.print(true);
+        for (int bad : new int[] {-1, 4, LOW, HIGH}) {
+            refused(x, "bad way", () -> x.cutSheet(bad), BAD_VALUE);
+        }
+        acts(x, "the top one", () -> x.cutSheet(0), 1);
+        due("its card", x.pack(0, 0), 9);
+        due("its marks", x.cardOf(23, 3), 2);
+        refused(x, "a pack is there", () -> x.cutSheet(0), NOT_POSSIBLE);
+        refused(x, "a pack is there, bad way", () -> x.cutSheet(-1), BAD_VALUE);
+        x.deal(24);
+        refused(x, "a pack that is dealt is there", () -> x.cutSheet(0), NOT_POSSIBLE);
+        x.pulp();
+        acts(x, "the one below", () -> x.cutSheet(0), 0);
+        due("its card", x.pack(0, 0), 0);
+        due("nothing is dealt of it", x.count(4), 0);
+    }
+
+    private static void cutPack() {
+        CardSheets x = withPack(0);
+        acts(x, "cutPack(1)", () -> x.cutPack(1), 1);
+        acts(x, "cutPack(23)", () -> x.cutPack(23), 0);
+        acts(x, "cutPack(20)", () -> x.cutPack(20), 20);
+        order(x, 20, 21, 22, 23, 0, 1, 2, 3, 4, 5, 6, 7, 8, 9, 10, 11, 12, 13, 14, 15, 16, 17, 18, 19);
+        x.deal(19);
+        acts(x, "cutPack(2) of five", () -> x.cutPack(2), 17);
+        order(x, 17, 18, 19, 15, 16);
+        for (int bad : new int[] {0, -1, 5, 24, LOW, HIGH}) {
+            refused(x, "bad cut", () -> x.cutPack(bad), BAD_VALUE);
+        }
+        acts(x, "cutPack(4) of five", () -> x.cutPack(4), 16);
+        x.deal(4);
+        refused(x, "one card", () -> x.cutPack(1), BAD_VALUE);
+        x.deal(1);
+        refused(x, "no card", () -> x.cutPack(0), BAD_VALUE);
+        x.pulp();
+        refused(x, "no pack", () -> x.cutPack(1), NOT_POSSIBLE);
+        refused(x, "no pack, bad cut", () -> x.cutPack(0), NOT_POSSIBLE);
+    }
+
+    private static void shuffle() {
+        CardSheets x = withPack(0);
+        x.deal(16);
+        acts(x, "shuffle(4) of eight", () -> x.shuffle(4), 6);
+        order(x, 16, 20, 17, 21, 18, 22, 19, 23);
+        acts(x, "shuffle(2) of eight", () -> x.shuffle(2), 2);
+        order(x, 16, 17, 20, 21, 18, 22, 19, 23);
+        acts(x, "shuffle(6) of eight", () -> x.shuffle(6), 7);
+        order(x, 16, 19, 17, 23, 20, 21, 18, 22);
+        acts(x, "shuffle(1) moves none", () -> x.shuffle(1), 0);
+        acts(x, "shuffle(7) of eight", () -> x.shuffle(7), 7);
+        order(x, 16, 22, 19, 17, 23, 20, 21, 18);
+        for (int bad : new int[] {0, -1, 8, 24, LOW, HIGH}) {
+            refused(x, "bad shuffle", () -> x.shuffle(bad), BAD_VALUE);
+        }
+        x.deal(7);
+        refused(x, "one card", () -> x.shuffle(1), BAD_VALUE);
+        x.pulp();
+        refused(x, "no pack", () -> x.shuffle(1), NOT_POSSIBLE);
+        refused(x, "no pack, bad", () -> x.shuffle(0), NOT_POSSIBLE);
+    }
+
+    private static void deal() {
+        CardSheets x = withPack(0);
+        acts(x, "deal(1)", () -> x.deal(1), 23);
+        due("top card", x.pack(0, 0), 1);
+        due("place of 0", x.cardOf(0, 2), NONE);
+        due("place of 1", x.cardOf(1, 2), 0);
+        due("beyond the last place", x.pack(23, 0), UNKNOWN);
+        for (int bad : new int[] {0, -1, 24, LOW, HIGH}) {
+            refused(x, "bad deal", () -> x.deal(bad), BAD_VALUE);
+        }
+        acts(x, "deal(20)", () -> x.deal(20), 3);
+        due("dealt", x.count(4), 21);
+        acts(x, "deal(3)", () -> x.deal(3), 0);
+        due("the pack is still there", x.count(2), 1);
+        refused(x, "deal of none", () -> x.deal(1), BAD_VALUE);
+        x.pulp();
+        refused(x, "no pack", () -> x.deal(1), NOT_POSSIBLE);
+        refused(x, "no pack, bad", () -> x.deal(0), NOT_POSSIBLE);
+    }
+
+    private static void sell() {
+        CardSheets x = withPack(0);
+        acts(x, "sell", x::sell, 12);
+        due("coins", x.count(9), 12);
+        due("sold", x.count(7), 1);
+        due("pulped", x.count(8), 0);
+        due("pack", x.count(2), 0);
+        refused(x, "no pack", x::sell, NOT_POSSIBLE);
+        x.set(3, 99);
+        x.print(false);
+        x.cutSheet(1);
+        acts(x, "sell again", x::sell, 99);
+        due("coins", x.count(9), 111);
+        due("sold", x.count(7), 2);
+        x.lean(3, 4);
+        x.print(false);
+        x.cutSheet(1);
+        refused(x, "court leans", x::sell, -12);
+        x.deal(1);
+        refused(x, "dealt from", x::sell, -11);
+        x.pulp();
+        x.lean(3, 3);
+        x.set(2, 0);
+        x.mark(0, 0, true);
+        x.print(false);
+        x.cutSheet(1);
+        refused(x, "too many known", x::sell, -13);
+        x.set(2, 1);
+        acts(x, "just as many known", x::sell, 99);
+    }
+
+    private static void pulp() {
+        CardSheets x = withPack(0);
+        x.deal(5);
+        acts(x, "pulp", x::pulp, 19);
+        due("pulped", x.count(8), 1);
+        due("sold", x.count(7), 0);
+        due("coins", x.count(9), 0);
+        due("pack", x.count(2), 0);
+        due("cards", x.count(3), 0);
+        due("dealt", x.count(4), 0);
+        refused(x, "no pack", x::pulp, NOT_POSSIBLE);
+        x.print(false);
+        x.cutSheet(0);
+        acts(x, "pulp whole", x::pulp, 24);
+        due("pulped", x.count(8), 2);
+    }
+
+    private static void type() {
+        CardSheets x = new CardSheets();
+        char[] any = {'s', (char) 0, ' ', (char) 255, (char) 256, (char) 65535, 'x'};
+        for (int k = 0; k < any.length; k++) {
+            due("type", x.type(any[k]), k + 1);
+        }
+        due("no act", x.count(12), 0);
+        for (int length = any.length + 1; length <= 60; length++) {
+            due("type", x.type('s'), length);
+        }
+        refused(x, "type on 60", () -> x.type('s'), FULL);
+        due("length", x.count(13), 60);
+        write(x, "s0/1");
+        x.swap(3, 4);
+        x.undo();
+        due("undo leaves the text", x.count(13), 4);
+        due("as it is", x.fault(), NONE);
+    }
+
+    private static void clearText() {
+        CardSheets x = new CardSheets();
+        due("empty", x.clearText(), 0);
+        write(x, "s0/1");
+        due("four", x.clearText(), 4);
+        due("cleared", x.count(13), 0);
+        due("again", x.clearText(), 0);
+        due("no act", x.count(12), 0);
+        due("the empty text's fault", x.fault(), 0);
+        for (int k = 0; k < 61; k++) {
+            x.type('s');
+        }
+        due("sixty", x.clearText(), 60);
+        due("there is room again", x.type('m'), 1);
+    }
+
+    private static void faultOf(String text, int want) {
+        CardSheets x = new CardSheets();
+        write(x, text);
+        refused(x, "fault of \"" + text + "\"", x::fault, want);
+        if (want != NONE) {
+            refused(x, "changeAll of \"" + text + "\"", x::changeAll, -100 - want);
+        }
+    }
+
+    private static void fault() {
+        for (String good : new String[] {
+            "s0/0", "s23/23", "s10/9", "s1/2", "s2/19", "m0=0", "m23=3", "u19=2", "l3=0", "l23=9",
+            "l0=5", "l5=-9", "l5=-1", "s0/1;m2=3;u4=1;l5=-6", "s20/20;s0/23"}) {
+            faultOf(good, NONE);
+        }
+        faultOf("", 0);
+        faultOf("s", 1);
+        faultOf("s1", 2);
+        faultOf("s12", 3);
+        faultOf("s12/", 4);
+        faultOf("m1=", 3);
+        faultOf("l4=-", 4);
+        faultOf("s1/1;", 5);
+        faultOf("s1/1;;", 5);
+        faultOf(";", 0);
+        faultOf("x", 0);
+        faultOf("S1/1", 0);
+        faultOf(" s1/1", 0);
+        faultOf("0", 0);
+        faultOf("s24", 2);
+        faultOf("s29/1", 2);
+        faultOf("s30", 2);
+        faultOf("s00", 2);
+        faultOf("s01", 2);
+        faultOf("s231", 3);
+        faultOf("s/1", 1);
+        faultOf("s-1", 1);
+        faultOf("s1=1", 2);
+        faultOf("s1/24", 4);
+        faultOf("s1/00", 4);
+        faultOf("s1/101", 5);
+        faultOf("s1/-1", 3);
+        faultOf("s1/1/1", 4);
+        faultOf("m1/1", 2);
+        faultOf("m1=4", 3);
+        faultOf("m1=9", 3);
+        faultOf("m1=-1", 3);
+        faultOf("m1=01", 4);
+        faultOf("m1=11", 4);
+        faultOf("m24=1", 2);
+        faultOf("u1=4", 3);
+        faultOf("u1=3 ", 4);
+        faultOf("u=3", 1);
+        faultOf("l4=10", 4);
+        faultOf("l4=-0", 4);
+        faultOf("l4=-10", 5);
+        faultOf("l4=--1", 4);
+        faultOf("l4=+1", 3);
+        faultOf("l4=00", 4);
+        faultOf("l24", 2);
+        faultOf("s1/1,s1/1", 4);
+        faultOf("s1/1;x;y", 5);
+        faultOf("s1/" + (char) 0, 3);
+        faultOf("s1/1" + (char) 0, 4);
+        faultOf("s1" + (char) 305, 2);
+        faultOf("s" + (char) 0x661, 1);
+        faultOf((char) 371 + "1/1", 0);
+        faultOf("s1/1;s1/1;s1/1;s1/1;s1/1;s1/1;s1/1;s1/1;s1/1;s1/1;s1/1;s1/10", NONE);
+        faultOf("s1/1;s1/1;s1/1;s1/1;s1/1;s1/1;s1/1;s1/1;s1/1;s1/1;s1/1;s1/1;", 60);
+        faultOf("s1/1;s1/1;s1/1;s1/1;s1/1;s1/1;s1/1;s1/1;s1/1;s1/1;s10/10;s1/", 60);
+        faultOf("s1/1;s1/1;s1/1;s1/1;s1/1;s1/1;s1/1;s1/1;s1/1;s1/1;s10/10;s1s", 59);
+    }
+
+    private static void undo() {
+        CardSheets x = new CardSheets();
+        refused(x, "undo of nothing", x::undo, NONE);
+        for (int cell = 0; cell < 6; cell++) {
+            x.mark(cell, 0, true);
+        }
+        due("four states", x.count(12), 4);
+        due("undo", x.undo(), 3);
+        due("mark 5 is undone", x.block(5, 1), 0);
+        due("mark 4 is not", x.block(4, 1), 1);
+        x.swap(0, 1);
+        due("four again", x.count(12), 4);
+        for (int left = 3; left >= 0; left--) {
+            due("undo", x.undo(), left);
+        }
+        refused(x, "no more", x::undo, NONE);
+        due("marks then", x.count(10), 2);
+        due("cards then", x.block(0, 0), 0);
+        undoOfAllParts();
+    }
+
+    private static void undoOfAllParts() {
+        CardSheets x = withPack(3);
+        x.set(3, 50);
+        x.print(true);
+        String before = toldButHistory(x);
+        x.sell();
+        x.lean(5, 5);
+        x.cutSheet(2);
+        x.pulp();
+        due("four undos", x.undo(), 3);
+        x.undo();
+        x.undo();
+        due("the last one", x.undo(), 0);
+        due("all as it was", before.equals(toldButHistory(x)) ? 1 : 0, 1);
+        due("printed", x.count(1), 2);
+    }
+
+    private static void keep() {
+        CardSheets x = new CardSheets();
+        due("keep", x.keep(), 0);
+        due("no act", x.count(12), 0);
+        x.print(false);
+        x.print(false);
+        due("keep", x.keep(), 2);
+        due("no act", x.count(12), 2);
+        x.print(false);
+        due("the later one is kept", x.restore(), 2);
+        x.undo();
+        x.undo();
+        due("undo leaves the snapshot", x.restore(), 2);
+        due("sheets", x.count(0), 2);
+    }
+
+    private static void restore() {
+        CardSheets x = new CardSheets();
+        refused(x, "no snapshot", x::restore, NONE);
+        x.mark(4, 1, true);
+        x.print(true);
+        x.cutSheet(1);
+        x.shuffle(9);
+        x.deal(3);
+        write(x, "s0/1");
+        x.keep();
+        String kept = toldButHistory(x);
+        x.pulp();
+        x.print(false);
+        x.set(1, 1);
+        x.lean(4, 4);
+        x.swap(1, 2);
+        acts(x, "restore", x::restore, 1);
+        due("as kept", kept.equals(toldButHistory(x)) ? 1 : 0, 1);
+        x.deal(1);
+        x.clearText();
+        acts(x, "restore again", x::restore, 1);
+        due("the text is not restored", x.count(13), 0);
+        due("cards", x.count(3), 21);
+        acts(x, "restore of the same", x::restore, 1);
+        due("four states", x.count(12), 4);
+    }
+
+    private static void block() {
+        CardSheets x = new CardSheets();
+        x.swap(23, 1);
+        x.mark(23, 2, true);
+        x.mark(23, 3, true);
+        due("card", x.block(23, 0), 1);
+        due("marks", x.block(23, 1), 12);
+        due("card", x.block(1, 0), 23);
+        due("marks", x.block(1, 1), 0);
+        for (int bad : new int[] {-1, 24, LOW, HIGH}) {
+            refused(x, "bad cell", () -> x.block(bad, 0), UNKNOWN);
+            refused(x, "bad cell and what", () -> x.block(bad, 2), UNKNOWN);
+        }
+        for (int bad : new int[] {-1, 2, LOW, HIGH}) {
+            refused(x, "bad what", () -> x.block(0, bad), BAD_VALUE);
+        }
+    }
+
+    private static void cardOf() {
+        CardSheets x = new CardSheets();
+        x.swap(0, 3);
+        x.lean(3, -2);
+        x.mark(0, 3, true);
+        due("cell", x.cardOf(3, 0), 0);
+        due("cell", x.cardOf(0, 0), 3);
+        due("lean", x.cardOf(3, 1), 98);
+        due("no court", x.cardOf(0, 1), 100);
+        due("no pack", x.cardOf(3, 2), NONE);
+        due("no pack", x.cardOf(3, 3), NONE);
+        x.print(false);
+        x.mark(0, 3, false);
+        x.cutSheet(1);
+        x.lean(3, 2);
+        due("place", x.cardOf(3, 2), 0);
+        due("place", x.cardOf(0, 2), 12);
+        due("marks as printed", x.cardOf(3, 3), 8);
+        due("marks", x.cardOf(0, 3), 0);
+        due("lean now", x.cardOf(3, 1), 102);
+        x.deal(2);
+        due("dealt", x.cardOf(3, 2), NONE);
+        due("marks of a dealt one", x.cardOf(3, 3), 8);
+        due("place", x.cardOf(0, 2), 10);
+        for (int bad : new int[] {-1, 24, LOW, HIGH}) {
+            refused(x, "bad card", () -> x.cardOf(bad, 0), UNKNOWN);
+            refused(x, "bad card and what", () -> x.cardOf(bad, 4), UNKNOWN);
+        }
+        for (int bad : new int[] {-1, 4, LOW, HIGH}) {
+            refused(x, "bad what", () -> x.cardOf(0, bad), BAD_VALUE);
+        }
+    }
+
+    private static void sheet() {
+        CardSheets x = new CardSheets();
+        refused(x, "empty pile", () -> x.sheet(0, 0, 0), UNKNOWN);
+        x.swap(0, 23);
+        x.mark(5, 1, true);
+        x.print(false);
+        x.swap(0, 1);
+        x.print(true);
+        due("top card", x.sheet(0, 0, 0), 1);
+        due("top marks", x.sheet(0, 18, 1), 2);
+        due("top marks", x.sheet(0, 5, 1), 0);
+        due("card below", x.sheet(1, 0, 0), 23);
+        due("card below", x.sheet(1, 23, 0), 0);
+        due("marks below", x.sheet(1, 5, 1), 2);
+        for (int bad : new int[] {-1, 2, 6, LOW, HIGH}) {
+            refused(x, "bad sheet", () -> x.sheet(bad, 0, 0), UNKNOWN);
+            refused(x, "bad sheet and what", () -> x.sheet(bad, 0, 2), UNKNOWN);
+        }
+        for (int bad : new int[] {-1, 24, LOW, HIGH}) {
+            refused(x, "bad cell", () -> x.sheet(0, bad, 0), UNKNOWN);
+            refused(x, "bad cell and what", () -> x.sheet(0, bad, 2), UNKNOWN);
+        }
+        for (int bad : new int[] {-1, 2, LOW, HIGH}) {
+            refused(x, "bad what", () -> x.sheet(0, 0, bad), BAD_VALUE);
+        }
+        x.cutSheet(0);
+        due("cut away", x.sheet(0, 0, 0), 23);
+        refused(x, "no longer there", () -> x.sheet(1, 0, 0), UNKNOWN);
+    }
+
+    /** The marks: 4 and 9 have {0}, 7 has {1}, 8 has {0, 1}, the others have none. */
+    private static CardSheets marked() {
+        CardSheets x = new CardSheets();
+        change(x, "m4=0;m9=0;m7=1;m8=0;m8=1");
+        x.print(false);
+        x.cutSheet(0);
+        return x;
+    }
+
+    private static void place(CardSheets x, int place, int... answers) {
+        for (int what = 0; what < answers.length; what++) {
+            due("pack(" + place + ", " + what + ")", x.pack(place, what), answers[what]);
+        }
+    }
+
+    private static void pack() {
+        CardSheets x = new CardSheets();
+        refused(x, "no pack", () -> x.pack(0, 0), UNKNOWN);
+        refused(x, "no pack, bad what", () -> x.pack(0, 5), UNKNOWN);
+        CardSheets y = marked();
+        place(y, 0, 0, 0, 20, 0, 0);
+        place(y, 4, 4, 1, 2, 4, 0);
+        place(y, 7, 7, 2, 1, 7, 1);
+        place(y, 8, 8, 3, 1, 8, 1);
+        place(y, 9, 9, 1, 2, 4, 0);
+        place(y, 23, 23, 0, 20, 0, 0);
+        y.deal(5);
+        place(y, 0, 5, 0, 16, 5, 0);
+        place(y, 4, 9, 1, 1, 9, 1);
+        place(y, 18, 23, 0, 16, 5, 0);
+        for (int bad : new int[] {-1, 19, 24, LOW, HIGH}) {
+            refused(y, "bad place", () -> y.pack(bad, 0), UNKNOWN);
+            refused(y, "bad place and what", () -> y.pack(bad, 5), UNKNOWN);
+        }
+        for (int bad : new int[] {-1, 5, LOW, HIGH}) {
+            refused(y, "bad what", () -> y.pack(0, bad), BAD_VALUE);
+        }
+        y.cutPack(4);
+        place(y, 0, 9, 1, 1, 9, 1);
+        place(y, 18, 8, 3, 1, 8, 1);
+    }
+
+    private static void count() {
+        CardSheets x = marked();
+        x.print(true);
+        x.print(true);
+        x.lean(3, 3);
+        x.lean(4, -4);
+        x.lean(23, 9);
+        write(x, "s1");
+        x.deal(2);
+        int[] counts = {2, 3, 1, 22, 2, 2, 4, 0, 0, 0, 5, 2, 4, 2, 10, 3, 4, 12};
+        for (int what = 0; what < counts.length; what++) {
+            due("count(" + what + ")", x.count(what), counts[what]);
+        }
+        x.set(1, 4);
+        due("leaning beyond", x.count(11), 1);
+        x.set(1, 0);
+        due("leaning beyond", x.count(11), 3);
+        x.deal(22);
+        due("known of none", x.count(5), 0);
+        due("guessed of none", x.count(6), 0);
+        due("dealt", x.count(4), 24);
+        x.pulp();
+        x.cutSheet(0);
+        x.set(1, 9);
+        x.sell();
+        int[] then = {1, 3, 0, 0, 0, 0, 0, 1, 1, 12, 5, 0, 4, 2, 10, 9, 4, 12};
+        for (int what = 0; what < then.length; what++) {
+            due("count(" + what + ")", x.count(what), then[what]);
+        }
+        for (int bad : new int[] {-1, 18, LOW, HIGH}) {
+            refused(x, "bad what", () -> x.count(bad), BAD_VALUE);
+        }
+    }
+
+    private static void why() {
+        CardSheets x = new CardSheets();
+        refused(x, "no pack", x::why, NOT_POSSIBLE);
+        x.lean(5, -4);
+        change(x, "m0=0;m1=1;m2=2;m3=3;m4=0;m4=1");
+        x.print(false);
+        x.lean(5, 0);
+        x.cutSheet(2);
+        refused(x, "it leans on its sheet", x::why, 2);
+        x.set(1, 4);
+        refused(x, "five known", x::why, 3);
+        x.set(2, 5);
+        refused(x, "it can be sold", x::why, 0);
+        x.lean(5, 9);
+        refused(x, "the block's lean is no matter", x::why, 0);
+        x.set(1, 3);
+        x.set(2, 4);
+        refused(x, "the first of two", x::why, 2);
+        x.deal(1);
+        refused(x, "the first of three", x::why, 1);
+        x.undo();
+        x.set(1, 9);
+        x.set(2, 24);
+        x.deal(24);
+        refused(x, "dealt", x::why, 1);
+    }
+
+    private static void chances() {
+        CardSheets x = new CardSheets();
+        due("no pack", x.chances(), -1.0f);
+        CardSheets y = marked();
+        float sum = 0.0f;
+        for (int place = 0; place < 24; place++) {
+            boolean known = place == 7 || place == 8;
+            boolean pair = place == 4 || place == 9;
+            sum += known ? 1.0f : pair ? 0.5f : 1.0f / 20;
+        }
+        due("a whole pack", y.chances(), sum);
+        y.cutPack(8);
+        float cut = 1.0f + 0.5f;
+        for (int k = 10; k < 24; k++) {
+            cut += 1.0f / 20;
+        }
+        for (int k = 0; k < 4; k++) {
+            cut += 1.0f / 20;
+        }
+        cut += 0.5f;
+        cut += 1.0f / 20;
+        cut += 1.0f / 20;
+        cut += 1.0f;
+        due("from the top on", y.chances(), cut);
+        y.deal(22);
+        due("two places", y.chances(), 2.0f);
+        y.deal(2);
+        due("no cards", y.chances(), 0.0f);
+        CardSheets z = withPack(0);
+        z.deal(21);
+        due("three alike", z.chances(), 1.0f / 3 + 1.0f / 3 + 1.0f / 3);
+    }
+
+    private static void ifPrinted() {
+        CardSheets x = new CardSheets();
+        due("no marks", x.ifPrinted(false), 0);
+        due("no marks, turned", x.ifPrinted(true), 0);
+        x.mark(3, 0, true);
+        due("one", x.ifPrinted(false), 1);
+        x.mark(20, 0, true);
+        due("a pair is not known", x.ifPrinted(false), 0);
+        due("a pair, turned", x.ifPrinted(true), 0);
+        x.mark(20, 3, true);
+        refused(x, "two", () -> x.ifPrinted(false), 2);
+        refused(x, "two, turned", () -> x.ifPrinted(true), 2);
+        for (int k = 0; k < 6; k++) {
+            x.print(false);
+        }
+        refused(x, "with a pile of 6", () -> x.ifPrinted(true), 2);
+        x.cutSheet(0);
+        due("the same as of the pack", x.count(5), 2);
+        x.deal(5);
+        due("of a whole pack", x.ifPrinted(false), 2);
+    }
+
+    private static void worstFlaw() {
+        CardSheets x = new CardSheets();
+        refused(x, "no marks, cell", () -> x.worstFlaw(0), 0);
+        refused(x, "no marks, known", () -> x.worstFlaw(1), 0);
+        change(x, "m5=0;m5=1;m9=2");
+        due("the lower of two", x.worstFlaw(0), 5);
+        due("one is known then", x.worstFlaw(1), 1);
+        change(x, "m2=2;m1=3;m0=3");
+        due("only 5 is known", x.ifPrinted(false), 1);
+        due("without 5", x.worstFlaw(0), 5);
+        due("none is known then", x.worstFlaw(1), 0);
+        CardSheets y = new CardSheets();
+        change(y, "m7=1;m8=1");
+        due("without one of a pair the other is known", y.worstFlaw(0), 0);
+        due("without no flaw none is known", y.worstFlaw(1), 0);
+        CardSheets z = new CardSheets();
+        change(z, "m23=0");
+        due("the last cell", z.worstFlaw(0), 23);
+        due("none is known then", z.worstFlaw(1), 0);
+        for (int bad : new int[] {-1, 2, LOW, HIGH}) {
+            refused(z, "bad what", () -> z.worstFlaw(bad), BAD_VALUE);
+        }
+    }
+
+    private static void bestWay() {
+        CardSheets x = new CardSheets();
+        refused(x, "empty pile", x::bestWay, NOT_POSSIBLE);
+        x.print(false);
+        refused(x, "by columns two lie at home, by columns and back one", x::bestWay, 3);
+        change(x, "s0/1");
+        due("the sheet keeps its cards", x.bestWay(), 3);
+        x.print(false);
+        due("by columns and back none", x.bestWay(), 3);
+        change(x, "s0/1;s0/23");
+        x.print(false);
+        due("by columns none", x.bestWay(), 1);
+        x.cutSheet(0);
+        refused(x, "with a pack on the table", x::bestWay, 3);
+        CardSheets y = new CardSheets();
+        change(y, "s0/1;s2/3;s4/5;s6/7;s8/9;s10/11;s12/13;s14/15;s16/17");
+        change(y, "s18/19;s20/21;s22/23");
+        y.print(true);
+        due("by rows none", y.bestWay(), 0);
+    }
+
+    private static void backIn() {
+        CardSheets x = new CardSheets();
+        refused(x, "no pack", () -> x.backIn(1), NOT_POSSIBLE);
+        refused(x, "no pack, bad", () -> x.backIn(0), NOT_POSSIBLE);
+        CardSheets y = withPack(3);
+        for (int top = 1; top < 24; top++) {
+            int k = top;
+            refused(y, "backIn(" + top + ")", () -> y.backIn(k), byShuffling(y, k));
+        }
+        due("nothing is moved", y.backIn(1), 1);
+        due("a perfect shuffle", y.backIn(12), 11);
+        for (int bad : new int[] {0, -1, 24, LOW, HIGH}) {
+            refused(y, "bad", () -> y.backIn(bad), BAD_VALUE);
+        }
+        for (int left = 23; left >= 2; left--) {
+            y.deal(1);
+            for (int top = 1; top < left; top++) {
+                due("backIn(" + top + ") of " + left, y.backIn(top), byShuffling(y, top));
+            }
+            due("bad", y.backIn(left), BAD_VALUE);
+        }
+        y.deal(1);
+        due("one card", y.backIn(1), BAD_VALUE);
+    }
+
+    private static int byShuffling(CardSheets x, int top) {
+        int left = x.count(3);
+        int[] places = new int[left];
+        for (int k = 0; k < left; k++) {
+            places[k] = k;
+        }
+        for (int times = 1; times <= 500; times++) {
+            int[] next = new int[left];
+            int first = 0;
+            int second = top;
+            for (int k = 0; k < left; k++) {
+                boolean fromFirst = second == left || first < top && k % 2 == 0;
+                next[k] = fromFirst ? places[first++] : places[second++];
+            }
+            places = next;
+            boolean back = true;
+            for (int k = 0; k < left; k++) {
+                back &= places[k] == k;
+            }
+            if (back) {
+                return times;
+            }
+        }
+        return NONE;
+    }
+}
