@@ -235,9 +235,15 @@ public final class PromiseTests {
         due("marks of 2", x.block(2, 1), 8);
         write(x, "m3=0;l2=0");
         refused(x, "no court", x::changeAll, NOT_POSSIBLE);
+        write(x, "l0=0");
+        refused(x, "no court alone", x::changeAll, NOT_POSSIBLE);
+        write(x, "m3=0;l3=0;l0=0");
+        refused(x, "no court as the last", x::changeAll, NOT_POSSIBLE);
+        write(x, "m3=0;l3=0");
+        acts(x, "the no court is not in this text", x::changeAll, 2);
         write(x, "l3=1;l8=-1;m3=0");
         refused(x, "no court in the middle", x::changeAll, NOT_POSSIBLE);
-        write(x, "m3=0;l2=1;");
+        write(x, "m4=0;l2=1;");
         refused(x, "fault ahead of no court", x::changeAll, -110);
         write(x, "m3=0;x");
         refused(x, "fault", x::changeAll, -105);
@@ -290,28 +296,31 @@ public final class PromiseTests {
         refused(x, "print on 6", () -> x.print(false), FULL);
         refused(x, "print turned on 6", () -> x.print(true), FULL);
         due("printed", x.count(1), 6);
-        wearOfTheBacks();
+        wearOfTheBacks(7);
+        wearOfTheBacks(1);
+        wearOfTheBacks(2);
         wearIsCountedBySheets();
     }
 
-    private static void wearOfTheBacks() {
+    private static void wearOfTheBacks(int every) {
         CardSheets x = new CardSheets();
-        x.set(0, 7);
+        x.set(0, every);
         for (int times = 1; times <= 56; times++) {
             x.print(times % 2 == 0);
-            if (times == 7) {
-                due("the mark is not on this sheet", x.sheet(0, 7, 1), 0);
-                due("it is behind this sheet", x.block(7, 1), 2);
+            if (times == every) {
+                due("the mark is not on this sheet", x.sheet(0, every, 1), 0);
+                due("it is behind this sheet", x.block(every, 1), 2);
             }
-            if (times == 8) {
-                due("it is on the next one, which is turned", x.sheet(0, 16, 1), 2);
+            if (times == every + 1) {
+                int cell = times % 2 == 0 ? 23 - every : every;
+                due("it is on the next one", x.sheet(0, cell, 1), 2);
             }
             x.cutSheet(0);
             x.pulp();
         }
         int[] marks = new int[24];
-        for (int times = 7; times <= 56; times += 7) {
-            marks[times % 24] |= 1 << times / 7 % 4;
+        for (int times = every; times <= 56; times += every) {
+            marks[times % 24] |= 1 << times / every % 4;
         }
         for (int cell = 0; cell < 24; cell++) {
             due("wear of the cell " + cell, x.block(cell, 1), marks[cell]);
@@ -911,6 +920,28 @@ public final class PromiseTests {
         due("the same as of the pack", x.count(5), 2);
         x.deal(5);
         due("of a whole pack", x.ifPrinted(false), 2);
+        CardSheets y = new CardSheets();
+        change(y, "m0=1;m23=2");
+        due("first and last cell", y.ifPrinted(false), 2);
+        due("first and last cell, turned", y.ifPrinted(true), 2);
+        CardSheets z = allMarkedBut(11);
+        due("the only one without marks is known", z.ifPrinted(false), 1);
+        due("the only one without marks, turned", z.ifPrinted(true), 1);
+        z.mark(11, 3, true);
+        due("it has other marks", z.ifPrinted(false), 1);
+        z.mark(11, 3, false);
+        z.mark(11, 0, true);
+        due("all have the same", z.ifPrinted(false), 0);
+    }
+
+    private static CardSheets allMarkedBut(int bare) {
+        CardSheets x = new CardSheets();
+        for (int cell = 0; cell < 24; cell++) {
+            if (cell != bare) {
+                x.mark(cell, 0, true);
+            }
+        }
+        return x;
     }
 
     private static void worstFlaw() {
@@ -932,6 +963,18 @@ public final class PromiseTests {
         change(z, "m23=0");
         due("the last cell", z.worstFlaw(0), 23);
         due("none is known then", z.worstFlaw(1), 0);
+        for (int cell = 0; cell < 24; cell++) {
+            CardSheets one = new CardSheets();
+            one.mark(cell, cell % 4, true);
+            due("the only flaw", one.worstFlaw(0), cell);
+            due("none is known without it", one.worstFlaw(1), 0);
+        }
+        CardSheets alike = allMarkedBut(24);
+        due("all have the same", alike.worstFlaw(0), 0);
+        due("any one without marks is known", alike.worstFlaw(1), 1);
+        CardSheets bare = allMarkedBut(11);
+        due("without marks 0 is not told from 11", bare.worstFlaw(0), 0);
+        due("none is known then", bare.worstFlaw(1), 0);
         for (int bad : new int[] {-1, 2, LOW, HIGH}) {
             refused(z, "bad what", () -> z.worstFlaw(bad), BAD_VALUE);
         }
