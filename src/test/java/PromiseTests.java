@@ -1,19 +1,5 @@
-import java.util.function.IntSupplier;
-
 /** For each promise of ../shared/DOC.md: ordinary calls, the edges that it names, wrong arguments. */
-public final class PromiseTests {
-    private static final int UNKNOWN = -1;
-    private static final int BAD_VALUE = -2;
-    private static final int FULL = -3;
-    private static final int NOT_POSSIBLE = -4;
-    private static final int NONE = -5;
-    private static final int LOW = Integer.MIN_VALUE;
-    private static final int HIGH = Integer.MAX_VALUE;
-
-    private static int wrong = 0;
-    private static int promise = 0;
-    private static int checks = 0;
-
+public final class PromiseTests extends Checks {
     private PromiseTests() {
     }
 
@@ -27,115 +13,14 @@ public final class PromiseTests {
             PromiseTests::cardOf, PromiseTests::sheet, PromiseTests::pack, PromiseTests::count,
             PromiseTests::why, PromiseTests::chances, PromiseTests::ifPrinted,
             PromiseTests::worstFlaw, PromiseTests::bestWay, PromiseTests::backIn};
-        for (Runnable test : promises) {
-            promise++;
-            int before = checks;
-            test.run();
-            if (checks == before) {
-                wrong++;
-                System.out.println("promise " + promise + " has no test");
-            }
+        for (int k = 0; k < promises.length; k++) {
+            says("promise " + (k + 1), promises[k]);
         }
-        System.out.println(promise + " promises, " + checks + " checks, " + wrong + " wrong");
-        if (wrong != 0) {
-            System.exit(1);
-        }
-    }
-
-    private static void due(String call, double got, double want) {
-        checks++;
-        if (got != want) {
-            wrong++;
-            System.out.println("promise " + promise + ": " + call + " answered " + got + ", due is " + want);
-        }
-    }
-
-    /** An error, or NONE, changes nothing: all that is told stays, and no state is recorded. */
-    private static void refused(CardSheets x, String call, IntSupplier act, int want) {
-        String before = told(x);
-        due(call, act.getAsInt(), want);
-        checks++;
-        if (!before.equals(told(x))) {
-            wrong++;
-            System.out.println("promise " + promise + ": " + call + " changed something");
-        }
-    }
-
-    /** An act records the state before it: undo brings that back. */
-    private static void acts(CardSheets x, String call, IntSupplier act, int want) {
-        String before = toldButHistory(x);
-        int states = x.count(12);
-        due(call, act.getAsInt(), want);
-        due(call + " records", x.count(12), Math.min(states + 1, 4));
-        String after = toldButHistory(x);
-        due(call + ", undone", x.undo(), Math.min(states, 3));
-        checks++;
-        if (!before.equals(toldButHistory(x))) {
-            wrong++;
-            System.out.println("promise " + promise + ": undo after " + call + " does not restore");
-        }
-        act.getAsInt();
-        checks++;
-        if (!after.equals(toldButHistory(x))) {
-            wrong++;
-            System.out.println("promise " + promise + ": " + call + " done again differs");
-        }
-    }
-
-    private static String told(CardSheets x) {
-        return toldButHistory(x) + " states " + x.count(12);
-    }
-
-    private static String toldButHistory(CardSheets x) {
-        StringBuilder all = new StringBuilder();
-        for (int what = 0; what <= 17; what++) {
-            if (what != 12) {
-                all.append(x.count(what)).append(' ');
-            }
-        }
-        for (int k = 0; k < 24; k++) {
-            all.append(x.block(k, 0)).append(' ').append(x.block(k, 1)).append(' ');
-            for (int what = 0; what < 4; what++) {
-                all.append(x.cardOf(k, what)).append(' ');
-            }
-            all.append(x.pack(k, 0)).append(' ');
-            for (int sheet = 0; sheet < 6; sheet++) {
-                all.append(x.sheet(sheet, k, 0)).append(' ').append(x.sheet(sheet, k, 1)).append(' ');
-            }
-        }
-        return all.append(x.why()).append(' ').append(x.fault()).toString();
-    }
-
-    private static void write(CardSheets x, String text) {
-        x.clearText();
-        for (int k = 0; k < text.length(); k++) {
-            x.type(text.charAt(k));
-        }
-    }
-
-    private static void change(CardSheets x, String text) {
-        write(x, text);
-        int changes = text.split(";").length;
-        due("changeAll of " + text, x.changeAll(), changes);
-        x.clearText();
-    }
-
-    private static CardSheets withPack(int way) {
-        CardSheets x = new CardSheets();
-        x.print(false);
-        x.cutSheet(way);
-        return x;
-    }
-
-    private static void order(CardSheets x, int... cards) {
-        due("cards of the pack", x.count(3), cards.length);
-        for (int place = 0; place < cards.length; place++) {
-            due("card at the place " + place, x.pack(place, 0), cards[place]);
-        }
+        finish("promises");
     }
 
     private static void newObject() {
-        CardSheets x = new CardSheets();
+        Shop x = new Shop();
         int[] counts = {0, 0, 0, 0, 0, 0, 0, 0, 0, 0, 0, 0, 0, 0, 10, 3, 4, 12};
         for (int what = 0; what < counts.length; what++) {
             due("count " + what, x.count(what), counts[what]);
@@ -147,7 +32,7 @@ public final class PromiseTests {
         }
         due("undo", x.undo(), NONE);
         due("restore", x.restore(), NONE);
-        CardSheets other = new CardSheets();
+        Shop other = new Shop();
         x.mark(3, 1, true);
         x.type('s');
         due("another object", other.block(3, 1), 0);
@@ -155,7 +40,7 @@ public final class PromiseTests {
     }
 
     private static void swap() {
-        CardSheets x = new CardSheets();
+        Shop x = new Shop();
         acts(x, "swap(0, 23)", () -> x.swap(0, 23), 23);
         due("cell 0", x.block(0, 0), 23);
         due("cell 23", x.block(23, 0), 0);
@@ -165,58 +50,58 @@ public final class PromiseTests {
         x.mark(2, 0, true);
         x.swap(2, 3);
         due("marks stay at the cell", x.block(2, 1), 1);
-        refused(x, "swap(6, 6)", () -> x.swap(6, 6), NONE);
+        stays(x, "swap(6, 6)", () -> x.swap(6, 6), NONE);
         for (int bad : new int[] {-1, 24, LOW, HIGH}) {
-            refused(x, "swap bad cell", () -> x.swap(bad, 1), UNKNOWN);
-            refused(x, "swap bad other", () -> x.swap(1, bad), UNKNOWN);
+            stays(x, "swap bad cell", () -> x.swap(bad, 1), UNKNOWN);
+            stays(x, "swap bad other", () -> x.swap(1, bad), UNKNOWN);
         }
-        refused(x, "swap(24, 24)", () -> x.swap(24, 24), UNKNOWN);
+        stays(x, "swap(24, 24)", () -> x.swap(24, 24), UNKNOWN);
     }
 
     private static void mark() {
-        CardSheets x = new CardSheets();
+        Shop x = new Shop();
         acts(x, "mark(23, 3, true)", () -> x.mark(23, 3, true), 8);
         acts(x, "mark(23, 0, true)", () -> x.mark(23, 0, true), 9);
-        refused(x, "mark(23, 0, true)", () -> x.mark(23, 0, true), NONE);
+        stays(x, "mark(23, 0, true)", () -> x.mark(23, 0, true), NONE);
         acts(x, "mark(23, 3, false)", () -> x.mark(23, 3, false), 1);
-        refused(x, "mark(23, 3, false)", () -> x.mark(23, 3, false), NONE);
-        refused(x, "mark(0, 0, false)", () -> x.mark(0, 0, false), NONE);
+        stays(x, "mark(23, 3, false)", () -> x.mark(23, 3, false), NONE);
+        stays(x, "mark(0, 0, false)", () -> x.mark(0, 0, false), NONE);
         acts(x, "mark(0, 2, true)", () -> x.mark(0, 2, true), 4);
         for (int bad : new int[] {-1, 24, LOW, HIGH}) {
-            refused(x, "mark bad cell", () -> x.mark(bad, 0, true), UNKNOWN);
+            stays(x, "mark bad cell", () -> x.mark(bad, 0, true), UNKNOWN);
         }
         for (int bad : new int[] {-1, 4, 32, LOW, HIGH}) {
-            refused(x, "mark bad mark", () -> x.mark(0, bad, true), UNKNOWN);
-            refused(x, "mark bad mark", () -> x.mark(0, bad, false), UNKNOWN);
+            stays(x, "mark bad mark", () -> x.mark(0, bad, true), UNKNOWN);
+            stays(x, "mark bad mark", () -> x.mark(0, bad, false), UNKNOWN);
         }
     }
 
     private static void lean() {
-        CardSheets x = new CardSheets();
+        Shop x = new Shop();
         acts(x, "lean(3, 9)", () -> x.lean(3, 9), 100);
         acts(x, "lean(3, -9)", () -> x.lean(3, -9), 109);
         acts(x, "lean(3, 0)", () -> x.lean(3, 0), 91);
-        refused(x, "lean(3, 0)", () -> x.lean(3, 0), NONE);
+        stays(x, "lean(3, 0)", () -> x.lean(3, 0), NONE);
         acts(x, "lean(23, -1)", () -> x.lean(23, -1), 100);
         due("lean told", x.cardOf(23, 1), 99);
         acts(x, "lean(10, 1)", () -> x.lean(10, 1), 100);
         for (int card : new int[] {0, 1, 2, 6, 7, 8, 12, 18, 20}) {
-            refused(x, "lean of no court", () -> x.lean(card, 1), NOT_POSSIBLE);
-            refused(x, "lean 0 of no court", () -> x.lean(card, 0), NOT_POSSIBLE);
-            refused(x, "bad lean of no court", () -> x.lean(card, 10), BAD_VALUE);
+            stays(x, "lean of no court", () -> x.lean(card, 1), NOT_POSSIBLE);
+            stays(x, "lean 0 of no court", () -> x.lean(card, 0), NOT_POSSIBLE);
+            stays(x, "bad lean of no court", () -> x.lean(card, 10), BAD_VALUE);
         }
         for (int bad : new int[] {-10, 10, LOW, HIGH}) {
-            refused(x, "bad lean", () -> x.lean(3, bad), BAD_VALUE);
+            stays(x, "bad lean", () -> x.lean(3, bad), BAD_VALUE);
         }
         for (int bad : new int[] {-1, 24, LOW, HIGH}) {
-            refused(x, "lean of bad card", () -> x.lean(bad, 1), UNKNOWN);
-            refused(x, "bad lean of bad card", () -> x.lean(bad, 10), UNKNOWN);
+            stays(x, "lean of bad card", () -> x.lean(bad, 1), UNKNOWN);
+            stays(x, "bad lean of bad card", () -> x.lean(bad, 10), UNKNOWN);
         }
     }
 
     private static void changeAll() {
-        CardSheets x = new CardSheets();
-        write(x, "s0/23;s23/5;m7=3;m7=1;u7=3;l9=-9;l10=9");
+        Shop x = new Shop();
+        x.write("s0/23;s23/5;m7=3;m7=1;u7=3;l9=-9;l10=9");
         acts(x, "changeAll", x::changeAll, 7);
         due("cell 0", x.block(0, 0), 23);
         due("cell 23", x.block(23, 0), 5);
@@ -225,58 +110,58 @@ public final class PromiseTests {
         due("lean of 9", x.cardOf(9, 1), 91);
         due("lean of 10", x.cardOf(10, 1), 109);
         due("the text stays", x.count(13), 38);
-        write(x, "l9=0;l9=0;m7=1;u0=0;s4/4");
+        x.write("l9=0;l9=0;m7=1;u0=0;s4/4");
         acts(x, "changes that are so already", x::changeAll, 5);
         acts(x, "all of them so already", x::changeAll, 5);
-        write(x, "m0=0;m0=1;m0=2;m0=3;m1=0;m1=1;m1=2;m1=3;u0=0;u1=0;u2=0;m2=3");
+        x.write("m0=0;m0=1;m0=2;m0=3;m1=0;m1=1;m1=2;m1=3;u0=0;u1=0;u2=0;m2=3");
         due("length 59", x.count(13), 59);
         acts(x, "12 changes", x::changeAll, 12);
         due("marks of 0", x.block(0, 1), 14);
         due("marks of 2", x.block(2, 1), 8);
-        write(x, "m3=0;l2=0");
-        refused(x, "no court", x::changeAll, NOT_POSSIBLE);
-        write(x, "l0=0");
-        refused(x, "no court alone", x::changeAll, NOT_POSSIBLE);
-        write(x, "m3=0;l3=0;l0=0");
-        refused(x, "no court as the last", x::changeAll, NOT_POSSIBLE);
-        write(x, "m3=0;l3=0");
+        x.write("m3=0;l2=0");
+        stays(x, "no court", x::changeAll, NOT_POSSIBLE);
+        x.write("l0=0");
+        stays(x, "no court alone", x::changeAll, NOT_POSSIBLE);
+        x.write("m3=0;l3=0;l0=0");
+        stays(x, "no court as the last", x::changeAll, NOT_POSSIBLE);
+        x.write("m3=0;l3=0");
         acts(x, "the no court is not in this text", x::changeAll, 2);
-        write(x, "l3=1;l8=-1;m3=0");
-        refused(x, "no court in the middle", x::changeAll, NOT_POSSIBLE);
-        write(x, "m4=0;l2=1;");
-        refused(x, "fault ahead of no court", x::changeAll, -110);
-        write(x, "m3=0;x");
-        refused(x, "fault", x::changeAll, -105);
+        x.write("l3=1;l8=-1;m3=0");
+        stays(x, "no court in the middle", x::changeAll, NOT_POSSIBLE);
+        x.write("m4=0;l2=1;");
+        stays(x, "fault ahead of no court", x::changeAll, -110);
+        x.write("m3=0;x");
+        stays(x, "fault", x::changeAll, -105);
         x.clearText();
-        refused(x, "empty text", x::changeAll, -100);
-        write(x, "m0=0;m0=1;m0=2;m0=3;m1=0;m1=1;m1=2;m1=3;u0=0;u1=0;u2=0;m2=3;");
-        refused(x, "fault at the end of 60", x::changeAll, -160);
+        stays(x, "empty text", x::changeAll, -100);
+        x.write("m0=0;m0=1;m0=2;m0=3;m1=0;m1=1;m1=2;m1=3;u0=0;u1=0;u2=0;m2=3;");
+        stays(x, "fault at the end of 60", x::changeAll, -160);
     }
 
     private static void set() {
-        CardSheets x = new CardSheets();
+        Shop x = new Shop();
         int[] first = {10, 3, 4, 12};
         int[] least = {1, 0, 0, 1};
         int[] most = {99, 9, 24, 99};
         for (int which = 0; which < 4; which++) {
             int k = which;
-            refused(x, "set as it is", () -> x.set(k, first[k]), NONE);
+            stays(x, "set as it is", () -> x.set(k, first[k]), NONE);
             acts(x, "set to the least", () -> x.set(k, least[k]), first[k]);
             acts(x, "set to the most", () -> x.set(k, most[k]), least[k]);
             due("told", x.count(14 + k), most[k]);
-            refused(x, "set too low", () -> x.set(k, least[k] - 1), BAD_VALUE);
-            refused(x, "set too high", () -> x.set(k, most[k] + 1), BAD_VALUE);
-            refused(x, "set far too low", () -> x.set(k, LOW), BAD_VALUE);
-            refused(x, "set far too high", () -> x.set(k, HIGH), BAD_VALUE);
+            stays(x, "set too low", () -> x.set(k, least[k] - 1), BAD_VALUE);
+            stays(x, "set too high", () -> x.set(k, most[k] + 1), BAD_VALUE);
+            stays(x, "set far too low", () -> x.set(k, LOW), BAD_VALUE);
+            stays(x, "set far too high", () -> x.set(k, HIGH), BAD_VALUE);
         }
         for (int bad : new int[] {-1, 4, LOW, HIGH}) {
-            refused(x, "set bad", () -> x.set(bad, 1), BAD_VALUE);
-            refused(x, "set bad to 0", () -> x.set(bad, 0), BAD_VALUE);
+            stays(x, "set bad", () -> x.set(bad, 1), BAD_VALUE);
+            stays(x, "set bad to 0", () -> x.set(bad, 0), BAD_VALUE);
         }
     }
 
     private static void print() {
-        CardSheets x = new CardSheets();
+        Shop x = new Shop();
         x.mark(0, 2, true);
         x.mark(22, 0, true);
         acts(x, "print", () -> x.print(false), 1);
@@ -293,8 +178,8 @@ public final class PromiseTests {
             int k = sheets;
             acts(x, "print", () -> x.print(false), k);
         }
-        refused(x, "print on 6", () -> x.print(false), FULL);
-        refused(x, "print turned on 6", () -> x.print(true), FULL);
+        stays(x, "print on 6", () -> x.print(false), FULL);
+        stays(x, "print turned on 6", () -> x.print(true), FULL);
         due("printed", x.count(1), 6);
         wearOfTheBacks(7);
         wearOfTheBacks(1);
@@ -303,7 +188,7 @@ public final class PromiseTests {
     }
 
     private static void wearOfTheBacks(int every) {
-        CardSheets x = new CardSheets();
+        Shop x = new Shop();
         x.set(0, every);
         for (int times = 1; times <= 56; times++) {
             x.print(times % 2 == 0);
@@ -328,7 +213,7 @@ public final class PromiseTests {
     }
 
     private static void wearIsCountedBySheets() {
-        CardSheets x = new CardSheets();
+        Shop x = new Shop();
         for (int times = 1; times <= 6; times++) {
             x.print(false);
         }
@@ -353,29 +238,29 @@ public final class PromiseTests {
             {0, 1, 2, 3, 4, 5, 11, 10, 9, 8, 7, 6, 12, 13, 14, 15, 16, 17, 23, 22, 21, 20, 19, 18},
             {0, 6, 12, 18, 19, 13, 7, 1, 2, 8, 14, 20, 21, 15, 9, 3, 4, 10, 16, 22, 23, 17, 11, 5}};
         for (int way = 0; way < 4; way++) {
-            CardSheets x = new CardSheets();
+            Shop x = new Shop();
             x.print(false);
             int k = way;
             acts(x, "cutSheet " + way, () -> x.cutSheet(k), 0);
             order(x, orders[way]);
         }
-        CardSheets x = new CardSheets();
-        refused(x, "empty pile", () -> x.cutSheet(0), NOT_POSSIBLE);
-        refused(x, "empty pile, bad way", () -> x.cutSheet(4), BAD_VALUE);
+        Shop x = new Shop();
+        stays(x, "empty pile", () -> x.cutSheet(0), NOT_POSSIBLE);
+        stays(x, "empty pile, bad way", () -> x.cutSheet(4), BAD_VALUE);
         x.print(false);
         x.swap(0, 9);
         x.mark(0, 1, true);
         x.print(true);
         for (int bad : new int[] {-1, 4, LOW, HIGH}) {
-            refused(x, "bad way", () -> x.cutSheet(bad), BAD_VALUE);
+            stays(x, "bad way", () -> x.cutSheet(bad), BAD_VALUE);
         }
         acts(x, "the top one", () -> x.cutSheet(0), 1);
         due("its card", x.pack(0, 0), 9);
         due("its marks", x.cardOf(23, 3), 2);
-        refused(x, "a pack is there", () -> x.cutSheet(0), NOT_POSSIBLE);
-        refused(x, "a pack is there, bad way", () -> x.cutSheet(-1), BAD_VALUE);
+        stays(x, "a pack is there", () -> x.cutSheet(0), NOT_POSSIBLE);
+        stays(x, "a pack is there, bad way", () -> x.cutSheet(-1), BAD_VALUE);
         x.deal(24);
-        refused(x, "a pack that is dealt is there", () -> x.cutSheet(0), NOT_POSSIBLE);
+        stays(x, "a pack that is dealt is there", () -> x.cutSheet(0), NOT_POSSIBLE);
         x.pulp();
         acts(x, "the one below", () -> x.cutSheet(0), 0);
         due("its card", x.pack(0, 0), 0);
@@ -383,7 +268,7 @@ public final class PromiseTests {
     }
 
     private static void cutPack() {
-        CardSheets x = withPack(0);
+        Shop x = withPack(0);
         acts(x, "cutPack(1)", () -> x.cutPack(1), 1);
         acts(x, "cutPack(23)", () -> x.cutPack(23), 0);
         acts(x, "cutPack(20)", () -> x.cutPack(20), 20);
@@ -392,20 +277,20 @@ public final class PromiseTests {
         acts(x, "cutPack(2) of five", () -> x.cutPack(2), 17);
         order(x, 17, 18, 19, 15, 16);
         for (int bad : new int[] {0, -1, 5, 24, LOW, HIGH}) {
-            refused(x, "bad cut", () -> x.cutPack(bad), BAD_VALUE);
+            stays(x, "bad cut", () -> x.cutPack(bad), BAD_VALUE);
         }
         acts(x, "cutPack(4) of five", () -> x.cutPack(4), 16);
         x.deal(4);
-        refused(x, "one card", () -> x.cutPack(1), BAD_VALUE);
+        stays(x, "one card", () -> x.cutPack(1), BAD_VALUE);
         x.deal(1);
-        refused(x, "no card", () -> x.cutPack(0), BAD_VALUE);
+        stays(x, "no card", () -> x.cutPack(0), BAD_VALUE);
         x.pulp();
-        refused(x, "no pack", () -> x.cutPack(1), NOT_POSSIBLE);
-        refused(x, "no pack, bad cut", () -> x.cutPack(0), NOT_POSSIBLE);
+        stays(x, "no pack", () -> x.cutPack(1), NOT_POSSIBLE);
+        stays(x, "no pack, bad cut", () -> x.cutPack(0), NOT_POSSIBLE);
     }
 
     private static void shuffle() {
-        CardSheets x = withPack(0);
+        Shop x = withPack(0);
         x.deal(16);
         acts(x, "shuffle(4) of eight", () -> x.shuffle(4), 6);
         order(x, 16, 20, 17, 21, 18, 22, 19, 23);
@@ -417,43 +302,43 @@ public final class PromiseTests {
         acts(x, "shuffle(7) of eight", () -> x.shuffle(7), 7);
         order(x, 16, 22, 19, 17, 23, 20, 21, 18);
         for (int bad : new int[] {0, -1, 8, 24, LOW, HIGH}) {
-            refused(x, "bad shuffle", () -> x.shuffle(bad), BAD_VALUE);
+            stays(x, "bad shuffle", () -> x.shuffle(bad), BAD_VALUE);
         }
         x.deal(7);
-        refused(x, "one card", () -> x.shuffle(1), BAD_VALUE);
+        stays(x, "one card", () -> x.shuffle(1), BAD_VALUE);
         x.pulp();
-        refused(x, "no pack", () -> x.shuffle(1), NOT_POSSIBLE);
-        refused(x, "no pack, bad", () -> x.shuffle(0), NOT_POSSIBLE);
+        stays(x, "no pack", () -> x.shuffle(1), NOT_POSSIBLE);
+        stays(x, "no pack, bad", () -> x.shuffle(0), NOT_POSSIBLE);
     }
 
     private static void deal() {
-        CardSheets x = withPack(0);
+        Shop x = withPack(0);
         acts(x, "deal(1)", () -> x.deal(1), 23);
         due("top card", x.pack(0, 0), 1);
         due("place of 0", x.cardOf(0, 2), NONE);
         due("place of 1", x.cardOf(1, 2), 0);
         due("beyond the last place", x.pack(23, 0), UNKNOWN);
         for (int bad : new int[] {0, -1, 24, LOW, HIGH}) {
-            refused(x, "bad deal", () -> x.deal(bad), BAD_VALUE);
+            stays(x, "bad deal", () -> x.deal(bad), BAD_VALUE);
         }
         acts(x, "deal(20)", () -> x.deal(20), 3);
         due("dealt", x.count(4), 21);
         acts(x, "deal(3)", () -> x.deal(3), 0);
         due("the pack is still there", x.count(2), 1);
-        refused(x, "deal of none", () -> x.deal(1), BAD_VALUE);
+        stays(x, "deal of none", () -> x.deal(1), BAD_VALUE);
         x.pulp();
-        refused(x, "no pack", () -> x.deal(1), NOT_POSSIBLE);
-        refused(x, "no pack, bad", () -> x.deal(0), NOT_POSSIBLE);
+        stays(x, "no pack", () -> x.deal(1), NOT_POSSIBLE);
+        stays(x, "no pack, bad", () -> x.deal(0), NOT_POSSIBLE);
     }
 
     private static void sell() {
-        CardSheets x = withPack(0);
+        Shop x = withPack(0);
         acts(x, "sell", x::sell, 12);
         due("coins", x.count(9), 12);
         due("sold", x.count(7), 1);
         due("pulped", x.count(8), 0);
         due("pack", x.count(2), 0);
-        refused(x, "no pack", x::sell, NOT_POSSIBLE);
+        stays(x, "no pack", x::sell, NOT_POSSIBLE);
         x.set(3, 99);
         x.print(false);
         x.cutSheet(1);
@@ -463,22 +348,22 @@ public final class PromiseTests {
         x.lean(3, 4);
         x.print(false);
         x.cutSheet(1);
-        refused(x, "court leans", x::sell, -12);
+        stays(x, "court leans", x::sell, -12);
         x.deal(1);
-        refused(x, "dealt from", x::sell, -11);
+        stays(x, "dealt from", x::sell, -11);
         x.pulp();
         x.lean(3, 3);
         x.set(2, 0);
         x.mark(0, 0, true);
         x.print(false);
         x.cutSheet(1);
-        refused(x, "too many known", x::sell, -13);
+        stays(x, "too many known", x::sell, -13);
         x.set(2, 1);
         acts(x, "just as many known", x::sell, 99);
     }
 
     private static void pulp() {
-        CardSheets x = withPack(0);
+        Shop x = withPack(0);
         x.deal(5);
         acts(x, "pulp", x::pulp, 19);
         due("pulped", x.count(8), 1);
@@ -487,7 +372,7 @@ public final class PromiseTests {
         due("pack", x.count(2), 0);
         due("cards", x.count(3), 0);
         due("dealt", x.count(4), 0);
-        refused(x, "no pack", x::pulp, NOT_POSSIBLE);
+        stays(x, "no pack", x::pulp, NOT_POSSIBLE);
         x.print(false);
         x.cutSheet(0);
         acts(x, "pulp whole", x::pulp, 24);
@@ -495,7 +380,7 @@ public final class PromiseTests {
     }
 
     private static void type() {
-        CardSheets x = new CardSheets();
+        Shop x = new Shop();
         char[] any = {'s', (char) 0, ' ', (char) 255, (char) 256, (char) 65535, 'x'};
         for (int k = 0; k < any.length; k++) {
             due("type", x.type(any[k]), k + 1);
@@ -504,9 +389,9 @@ public final class PromiseTests {
         for (int length = any.length + 1; length <= 60; length++) {
             due("type", x.type('s'), length);
         }
-        refused(x, "type on 60", () -> x.type('s'), FULL);
+        stays(x, "type on 60", () -> x.type('s'), FULL);
         due("length", x.count(13), 60);
-        write(x, "s0/1");
+        x.write("s0/1");
         x.swap(3, 4);
         x.undo();
         due("undo leaves the text", x.count(13), 4);
@@ -514,9 +399,9 @@ public final class PromiseTests {
     }
 
     private static void clearText() {
-        CardSheets x = new CardSheets();
+        Shop x = new Shop();
         due("empty", x.clearText(), 0);
-        write(x, "s0/1");
+        x.write("s0/1");
         due("four", x.clearText(), 4);
         due("cleared", x.count(13), 0);
         due("again", x.clearText(), 0);
@@ -530,11 +415,11 @@ public final class PromiseTests {
     }
 
     private static void faultOf(String text, int want) {
-        CardSheets x = new CardSheets();
-        write(x, text);
-        refused(x, "fault of \"" + text + "\"", x::fault, want);
+        Shop x = new Shop();
+        x.write(text);
+        stays(x, "fault of \"" + text + "\"", x::fault, want);
         if (want != NONE) {
-            refused(x, "changeAll of \"" + text + "\"", x::changeAll, -100 - want);
+            stays(x, "changeAll of \"" + text + "\"", x::changeAll, -100 - want);
         }
     }
 
@@ -603,8 +488,8 @@ public final class PromiseTests {
     }
 
     private static void undo() {
-        CardSheets x = new CardSheets();
-        refused(x, "undo of nothing", x::undo, NONE);
+        Shop x = new Shop();
+        stays(x, "undo of nothing", x::undo, NONE);
         for (int cell = 0; cell < 6; cell++) {
             x.mark(cell, 0, true);
         }
@@ -617,17 +502,17 @@ public final class PromiseTests {
         for (int left = 3; left >= 0; left--) {
             due("undo", x.undo(), left);
         }
-        refused(x, "no more", x::undo, NONE);
+        stays(x, "no more", x::undo, NONE);
         due("marks then", x.count(10), 2);
         due("cards then", x.block(0, 0), 0);
         undoOfAllParts();
     }
 
     private static void undoOfAllParts() {
-        CardSheets x = withPack(3);
+        Shop x = withPack(3);
         x.set(3, 50);
         x.print(true);
-        String before = toldButHistory(x);
+        String before = x.toldBack(0);
         x.sell();
         x.lean(5, 5);
         x.cutSheet(2);
@@ -636,12 +521,12 @@ public final class PromiseTests {
         x.undo();
         x.undo();
         due("the last one", x.undo(), 0);
-        due("all as it was", before.equals(toldButHistory(x)) ? 1 : 0, 1);
+        same("all", x.toldBack(0), before);
         due("printed", x.count(1), 2);
     }
 
     private static void keep() {
-        CardSheets x = new CardSheets();
+        Shop x = new Shop();
         due("keep", x.keep(), 0);
         due("no act", x.count(12), 0);
         x.print(false);
@@ -657,23 +542,23 @@ public final class PromiseTests {
     }
 
     private static void restore() {
-        CardSheets x = new CardSheets();
-        refused(x, "no snapshot", x::restore, NONE);
+        Shop x = new Shop();
+        stays(x, "no snapshot", x::restore, NONE);
         x.mark(4, 1, true);
         x.print(true);
         x.cutSheet(1);
         x.shuffle(9);
         x.deal(3);
-        write(x, "s0/1");
+        x.write("s0/1");
         x.keep();
-        String kept = toldButHistory(x);
+        String kept = x.toldBack(0);
         x.pulp();
         x.print(false);
         x.set(1, 1);
         x.lean(4, 4);
         x.swap(1, 2);
         acts(x, "restore", x::restore, 1);
-        due("as kept", kept.equals(toldButHistory(x)) ? 1 : 0, 1);
+        same("what was kept", x.toldBack(0), kept);
         x.deal(1);
         x.clearText();
         acts(x, "restore again", x::restore, 1);
@@ -684,7 +569,7 @@ public final class PromiseTests {
     }
 
     private static void block() {
-        CardSheets x = new CardSheets();
+        Shop x = new Shop();
         x.swap(23, 1);
         x.mark(23, 2, true);
         x.mark(23, 3, true);
@@ -693,16 +578,16 @@ public final class PromiseTests {
         due("card", x.block(1, 0), 23);
         due("marks", x.block(1, 1), 0);
         for (int bad : new int[] {-1, 24, LOW, HIGH}) {
-            refused(x, "bad cell", () -> x.block(bad, 0), UNKNOWN);
-            refused(x, "bad cell and what", () -> x.block(bad, 2), UNKNOWN);
+            stays(x, "bad cell", () -> x.block(bad, 0), UNKNOWN);
+            stays(x, "bad cell and what", () -> x.block(bad, 2), UNKNOWN);
         }
         for (int bad : new int[] {-1, 2, LOW, HIGH}) {
-            refused(x, "bad what", () -> x.block(0, bad), BAD_VALUE);
+            stays(x, "bad what", () -> x.block(0, bad), BAD_VALUE);
         }
     }
 
     private static void cardOf() {
-        CardSheets x = new CardSheets();
+        Shop x = new Shop();
         x.swap(0, 3);
         x.lean(3, -2);
         x.mark(0, 3, true);
@@ -726,17 +611,17 @@ public final class PromiseTests {
         due("marks of a dealt one", x.cardOf(3, 3), 8);
         due("place", x.cardOf(0, 2), 10);
         for (int bad : new int[] {-1, 24, LOW, HIGH}) {
-            refused(x, "bad card", () -> x.cardOf(bad, 0), UNKNOWN);
-            refused(x, "bad card and what", () -> x.cardOf(bad, 4), UNKNOWN);
+            stays(x, "bad card", () -> x.cardOf(bad, 0), UNKNOWN);
+            stays(x, "bad card and what", () -> x.cardOf(bad, 4), UNKNOWN);
         }
         for (int bad : new int[] {-1, 4, LOW, HIGH}) {
-            refused(x, "bad what", () -> x.cardOf(0, bad), BAD_VALUE);
+            stays(x, "bad what", () -> x.cardOf(0, bad), BAD_VALUE);
         }
     }
 
     private static void sheet() {
-        CardSheets x = new CardSheets();
-        refused(x, "empty pile", () -> x.sheet(0, 0, 0), UNKNOWN);
+        Shop x = new Shop();
+        stays(x, "empty pile", () -> x.sheet(0, 0, 0), UNKNOWN);
         x.swap(0, 23);
         x.mark(5, 1, true);
         x.print(false);
@@ -749,41 +634,41 @@ public final class PromiseTests {
         due("card below", x.sheet(1, 23, 0), 0);
         due("marks below", x.sheet(1, 5, 1), 2);
         for (int bad : new int[] {-1, 2, 6, LOW, HIGH}) {
-            refused(x, "bad sheet", () -> x.sheet(bad, 0, 0), UNKNOWN);
-            refused(x, "bad sheet and what", () -> x.sheet(bad, 0, 2), UNKNOWN);
+            stays(x, "bad sheet", () -> x.sheet(bad, 0, 0), UNKNOWN);
+            stays(x, "bad sheet and what", () -> x.sheet(bad, 0, 2), UNKNOWN);
         }
         for (int bad : new int[] {-1, 24, LOW, HIGH}) {
-            refused(x, "bad cell", () -> x.sheet(0, bad, 0), UNKNOWN);
-            refused(x, "bad cell and what", () -> x.sheet(0, bad, 2), UNKNOWN);
+            stays(x, "bad cell", () -> x.sheet(0, bad, 0), UNKNOWN);
+            stays(x, "bad cell and what", () -> x.sheet(0, bad, 2), UNKNOWN);
         }
         for (int bad : new int[] {-1, 2, LOW, HIGH}) {
-            refused(x, "bad what", () -> x.sheet(0, 0, bad), BAD_VALUE);
+            stays(x, "bad what", () -> x.sheet(0, 0, bad), BAD_VALUE);
         }
         x.cutSheet(0);
         due("cut away", x.sheet(0, 0, 0), 23);
-        refused(x, "no longer there", () -> x.sheet(1, 0, 0), UNKNOWN);
+        stays(x, "no longer there", () -> x.sheet(1, 0, 0), UNKNOWN);
     }
 
     /** The marks: 4 and 9 have {0}, 7 has {1}, 8 has {0, 1}, the others have none. */
-    private static CardSheets marked() {
-        CardSheets x = new CardSheets();
+    private static Shop marked() {
+        Shop x = new Shop();
         change(x, "m4=0;m9=0;m7=1;m8=0;m8=1");
         x.print(false);
         x.cutSheet(0);
         return x;
     }
 
-    private static void place(CardSheets x, int place, int... answers) {
+    private static void place(Shop x, int place, int... answers) {
         for (int what = 0; what < answers.length; what++) {
             due("pack(" + place + ", " + what + ")", x.pack(place, what), answers[what]);
         }
     }
 
     private static void pack() {
-        CardSheets x = new CardSheets();
-        refused(x, "no pack", () -> x.pack(0, 0), UNKNOWN);
-        refused(x, "no pack, bad what", () -> x.pack(0, 5), UNKNOWN);
-        CardSheets y = marked();
+        Shop x = new Shop();
+        stays(x, "no pack", () -> x.pack(0, 0), UNKNOWN);
+        stays(x, "no pack, bad what", () -> x.pack(0, 5), UNKNOWN);
+        Shop y = marked();
         place(y, 0, 0, 0, 20, 0, 0);
         place(y, 4, 4, 1, 2, 4, 0);
         place(y, 7, 7, 2, 1, 7, 1);
@@ -795,11 +680,11 @@ public final class PromiseTests {
         place(y, 4, 9, 1, 1, 9, 1);
         place(y, 18, 23, 0, 16, 5, 0);
         for (int bad : new int[] {-1, 19, 24, LOW, HIGH}) {
-            refused(y, "bad place", () -> y.pack(bad, 0), UNKNOWN);
-            refused(y, "bad place and what", () -> y.pack(bad, 5), UNKNOWN);
+            stays(y, "bad place", () -> y.pack(bad, 0), UNKNOWN);
+            stays(y, "bad place and what", () -> y.pack(bad, 5), UNKNOWN);
         }
         for (int bad : new int[] {-1, 5, LOW, HIGH}) {
-            refused(y, "bad what", () -> y.pack(0, bad), BAD_VALUE);
+            stays(y, "bad what", () -> y.pack(0, bad), BAD_VALUE);
         }
         y.cutPack(4);
         place(y, 0, 9, 1, 1, 9, 1);
@@ -807,13 +692,13 @@ public final class PromiseTests {
     }
 
     private static void count() {
-        CardSheets x = marked();
+        Shop x = marked();
         x.print(true);
         x.print(true);
         x.lean(3, 3);
         x.lean(4, -4);
         x.lean(23, 9);
-        write(x, "s1");
+        x.write("s1");
         x.deal(2);
         int[] counts = {2, 3, 1, 22, 2, 2, 4, 0, 0, 0, 5, 2, 4, 2, 10, 3, 4, 12};
         for (int what = 0; what < counts.length; what++) {
@@ -836,41 +721,41 @@ public final class PromiseTests {
             due("count(" + what + ")", x.count(what), then[what]);
         }
         for (int bad : new int[] {-1, 18, LOW, HIGH}) {
-            refused(x, "bad what", () -> x.count(bad), BAD_VALUE);
+            stays(x, "bad what", () -> x.count(bad), BAD_VALUE);
         }
     }
 
     private static void why() {
-        CardSheets x = new CardSheets();
-        refused(x, "no pack", x::why, NOT_POSSIBLE);
+        Shop x = new Shop();
+        stays(x, "no pack", x::why, NOT_POSSIBLE);
         x.lean(5, -4);
         change(x, "m0=0;m1=1;m2=2;m3=3;m4=0;m4=1");
         x.print(false);
         x.lean(5, 0);
         x.cutSheet(2);
-        refused(x, "it leans on its sheet", x::why, 2);
+        stays(x, "it leans on its sheet", x::why, 2);
         x.set(1, 4);
-        refused(x, "five known", x::why, 3);
+        stays(x, "five known", x::why, 3);
         x.set(2, 5);
-        refused(x, "it can be sold", x::why, 0);
+        stays(x, "it can be sold", x::why, 0);
         x.lean(5, 9);
-        refused(x, "the block's lean is no matter", x::why, 0);
+        stays(x, "the block's lean is no matter", x::why, 0);
         x.set(1, 3);
         x.set(2, 4);
-        refused(x, "the first of two", x::why, 2);
+        stays(x, "the first of two", x::why, 2);
         x.deal(1);
-        refused(x, "the first of three", x::why, 1);
+        stays(x, "the first of three", x::why, 1);
         x.undo();
         x.set(1, 9);
         x.set(2, 24);
         x.deal(24);
-        refused(x, "dealt", x::why, 1);
+        stays(x, "dealt", x::why, 1);
     }
 
     private static void chances() {
-        CardSheets x = new CardSheets();
+        Shop x = new Shop();
         due("no pack", x.chances(), -1.0f);
-        CardSheets y = marked();
+        Shop y = marked();
         float sum = 0.0f;
         for (int place = 0; place < 24; place++) {
             boolean known = place == 7 || place == 8;
@@ -895,13 +780,13 @@ public final class PromiseTests {
         due("two places", y.chances(), 2.0f);
         y.deal(2);
         due("no cards", y.chances(), 0.0f);
-        CardSheets z = withPack(0);
+        Shop z = withPack(0);
         z.deal(21);
         due("three alike", z.chances(), 1.0f / 3 + 1.0f / 3 + 1.0f / 3);
     }
 
     private static void ifPrinted() {
-        CardSheets x = new CardSheets();
+        Shop x = new Shop();
         due("no marks", x.ifPrinted(false), 0);
         due("no marks, turned", x.ifPrinted(true), 0);
         x.mark(3, 0, true);
@@ -910,21 +795,21 @@ public final class PromiseTests {
         due("a pair is not known", x.ifPrinted(false), 0);
         due("a pair, turned", x.ifPrinted(true), 0);
         x.mark(20, 3, true);
-        refused(x, "two", () -> x.ifPrinted(false), 2);
-        refused(x, "two, turned", () -> x.ifPrinted(true), 2);
+        stays(x, "two", () -> x.ifPrinted(false), 2);
+        stays(x, "two, turned", () -> x.ifPrinted(true), 2);
         for (int k = 0; k < 6; k++) {
             x.print(false);
         }
-        refused(x, "with a pile of 6", () -> x.ifPrinted(true), 2);
+        stays(x, "with a pile of 6", () -> x.ifPrinted(true), 2);
         x.cutSheet(0);
         due("the same as of the pack", x.count(5), 2);
         x.deal(5);
         due("of a whole pack", x.ifPrinted(false), 2);
-        CardSheets y = new CardSheets();
+        Shop y = new Shop();
         change(y, "m0=1;m23=2");
         due("first and last cell", y.ifPrinted(false), 2);
         due("first and last cell, turned", y.ifPrinted(true), 2);
-        CardSheets z = allMarkedBut(11);
+        Shop z = allMarkedBut(11);
         due("the only one without marks is known", z.ifPrinted(false), 1);
         due("the only one without marks, turned", z.ifPrinted(true), 1);
         z.mark(11, 3, true);
@@ -934,8 +819,8 @@ public final class PromiseTests {
         due("all have the same", z.ifPrinted(false), 0);
     }
 
-    private static CardSheets allMarkedBut(int bare) {
-        CardSheets x = new CardSheets();
+    private static Shop allMarkedBut(int bare) {
+        Shop x = new Shop();
         for (int cell = 0; cell < 24; cell++) {
             if (cell != bare) {
                 x.mark(cell, 0, true);
@@ -945,9 +830,9 @@ public final class PromiseTests {
     }
 
     private static void worstFlaw() {
-        CardSheets x = new CardSheets();
-        refused(x, "no marks, cell", () -> x.worstFlaw(0), 0);
-        refused(x, "no marks, known", () -> x.worstFlaw(1), 0);
+        Shop x = new Shop();
+        stays(x, "no marks, cell", () -> x.worstFlaw(0), 0);
+        stays(x, "no marks, known", () -> x.worstFlaw(1), 0);
         change(x, "m5=0;m5=1;m9=2");
         due("the lower of two", x.worstFlaw(0), 5);
         due("one is known then", x.worstFlaw(1), 1);
@@ -955,36 +840,36 @@ public final class PromiseTests {
         due("only 5 is known", x.ifPrinted(false), 1);
         due("without 5", x.worstFlaw(0), 5);
         due("none is known then", x.worstFlaw(1), 0);
-        CardSheets y = new CardSheets();
+        Shop y = new Shop();
         change(y, "m7=1;m8=1");
         due("without one of a pair the other is known", y.worstFlaw(0), 0);
         due("without no flaw none is known", y.worstFlaw(1), 0);
-        CardSheets z = new CardSheets();
+        Shop z = new Shop();
         change(z, "m23=0");
         due("the last cell", z.worstFlaw(0), 23);
         due("none is known then", z.worstFlaw(1), 0);
         for (int cell = 0; cell < 24; cell++) {
-            CardSheets one = new CardSheets();
+            Shop one = new Shop();
             one.mark(cell, cell % 4, true);
             due("the only flaw", one.worstFlaw(0), cell);
             due("none is known without it", one.worstFlaw(1), 0);
         }
-        CardSheets alike = allMarkedBut(24);
+        Shop alike = allMarkedBut(24);
         due("all have the same", alike.worstFlaw(0), 0);
         due("any one without marks is known", alike.worstFlaw(1), 1);
-        CardSheets bare = allMarkedBut(11);
+        Shop bare = allMarkedBut(11);
         due("without marks 0 is not told from 11", bare.worstFlaw(0), 0);
         due("none is known then", bare.worstFlaw(1), 0);
         for (int bad : new int[] {-1, 2, LOW, HIGH}) {
-            refused(z, "bad what", () -> z.worstFlaw(bad), BAD_VALUE);
+            stays(z, "bad what", () -> z.worstFlaw(bad), BAD_VALUE);
         }
     }
 
     private static void bestWay() {
-        CardSheets x = new CardSheets();
-        refused(x, "empty pile", x::bestWay, NOT_POSSIBLE);
+        Shop x = new Shop();
+        stays(x, "empty pile", x::bestWay, NOT_POSSIBLE);
         x.print(false);
-        refused(x, "by columns two lie at home, by columns and back one", x::bestWay, 3);
+        stays(x, "by columns two lie at home, by columns and back one", x::bestWay, 3);
         change(x, "s0/1");
         due("the sheet keeps its cards", x.bestWay(), 3);
         x.print(false);
@@ -993,8 +878,8 @@ public final class PromiseTests {
         x.print(false);
         due("by columns none", x.bestWay(), 1);
         x.cutSheet(0);
-        refused(x, "with a pack on the table", x::bestWay, 3);
-        CardSheets y = new CardSheets();
+        stays(x, "with a pack on the table", x::bestWay, 3);
+        Shop y = new Shop();
         change(y, "s0/1;s2/3;s4/5;s6/7;s8/9;s10/11;s12/13;s14/15;s16/17");
         change(y, "s18/19;s20/21;s22/23");
         y.print(true);
@@ -1002,53 +887,27 @@ public final class PromiseTests {
     }
 
     private static void backIn() {
-        CardSheets x = new CardSheets();
-        refused(x, "no pack", () -> x.backIn(1), NOT_POSSIBLE);
-        refused(x, "no pack, bad", () -> x.backIn(0), NOT_POSSIBLE);
-        CardSheets y = withPack(3);
+        Shop x = new Shop();
+        stays(x, "no pack", () -> x.backIn(1), NOT_POSSIBLE);
+        stays(x, "no pack, bad", () -> x.backIn(0), NOT_POSSIBLE);
+        Shop y = withPack(3);
         for (int top = 1; top < 24; top++) {
             int k = top;
-            refused(y, "backIn(" + top + ")", () -> y.backIn(k), byShuffling(y, k));
+            stays(y, "backIn(" + top + ")", () -> y.backIn(k), byShuffling(24, k));
         }
         due("nothing is moved", y.backIn(1), 1);
         due("a perfect shuffle", y.backIn(12), 11);
         for (int bad : new int[] {0, -1, 24, LOW, HIGH}) {
-            refused(y, "bad", () -> y.backIn(bad), BAD_VALUE);
+            stays(y, "bad", () -> y.backIn(bad), BAD_VALUE);
         }
         for (int left = 23; left >= 2; left--) {
-            y.deal(1);
+            Shop z = withCards(left);
             for (int top = 1; top < left; top++) {
-                due("backIn(" + top + ") of " + left, y.backIn(top), byShuffling(y, top));
+                due("backIn(" + top + ") of " + left, z.backIn(top), byShuffling(left, top));
             }
-            due("bad", y.backIn(left), BAD_VALUE);
+            due("bad", z.backIn(left), BAD_VALUE);
         }
-        y.deal(1);
-        due("one card", y.backIn(1), BAD_VALUE);
-    }
-
-    private static int byShuffling(CardSheets x, int top) {
-        int left = x.count(3);
-        int[] places = new int[left];
-        for (int k = 0; k < left; k++) {
-            places[k] = k;
-        }
-        for (int times = 1; times <= 500; times++) {
-            int[] next = new int[left];
-            int first = 0;
-            int second = top;
-            for (int k = 0; k < left; k++) {
-                boolean fromFirst = second == left || first < top && k % 2 == 0;
-                next[k] = fromFirst ? places[first++] : places[second++];
-            }
-            places = next;
-            boolean back = true;
-            for (int k = 0; k < left; k++) {
-                back &= places[k] == k;
-            }
-            if (back) {
-                return times;
-            }
-        }
-        return NONE;
+        due("one card", withCards(1).backIn(1), BAD_VALUE);
+        due("no card", withCards(0).backIn(1), BAD_VALUE);
     }
 }
