@@ -110,10 +110,11 @@ public final class CardSheets {
             return NOT_POSSIBLE;
         }
         history.record(now);
-        for (int change = 0; change < text.changes; change++) {
+        int changes = text.changes;
+        for (int change = 0; change < changes; change++) {
             doChange(text.kindOf(change), at(text.firsts, change), at(text.seconds, change));
         }
-        return text.changes;
+        return changes;
     }
 
     public int set(int which, int value) {
@@ -521,10 +522,13 @@ public final class CardSheets {
         final int[] leans = new int[CELLS];
 
         Sheet(int[] cards, int[] leans, int[] backs, boolean turned) {
-            copyRow(cards, this.cards);
-            copyRow(leans, this.leans);
             for (int cell = 0; cell < CELLS; cell++) {
-                put(this.marks, at(cards, cell), at(backs, turned ? CELLS - 1 - cell : cell));
+                int card = at(cards, cell);
+                this.cards[cell] = card;
+                if (isCard(card)) {
+                    this.leans[card] = at(leans, card);
+                    this.marks[card] = at(backs, turned ? CELLS - 1 - cell : cell);
+                }
             }
         }
 
@@ -590,7 +594,8 @@ public final class CardSheets {
         }
 
         int placeOf(int card) {
-            for (int place = 0; place < left(); place++) {
+            int left = left();
+            for (int place = 0; place < left; place++) {
                 if (cardAt(place) == card) {
                     return place;
                 }
@@ -600,8 +605,9 @@ public final class CardSheets {
 
         void cutAt(int top, int[] before) {
             copyRow(order, before);
-            for (int place = 0; place < left(); place++) {
-                int old = place + top < left() ? place + top : place + top - left();
+            int left = left();
+            for (int place = 0; place < left; place++) {
+                int old = place + top < left ? place + top : place + top - left;
                 put(order, dealt + place, at(before, dealt + old));
             }
         }
@@ -609,9 +615,10 @@ public final class CardSheets {
         /** Returns how many cards have another place then. */
         int shuffleAt(int top, int[] before) {
             copyRow(order, before);
+            int left = left();
             int moved = 0;
-            for (int place = 0; place < left(); place++) {
-                int old = placeBefore(place, top, left());
+            for (int place = 0; place < left; place++) {
+                int old = placeBefore(place, top, left);
                 put(order, dealt + place, at(before, dealt + old));
                 if (old != place) {
                     moved++;
@@ -630,8 +637,9 @@ public final class CardSheets {
 
         int canBeAt(int place) {
             int seen = marksAt(place);
+            int left = left();
             int cards = 0;
-            for (int other = 0; other < left(); other++) {
+            for (int other = 0; other < left; other++) {
                 if (marksAt(other) == seen) {
                     cards++;
                 }
@@ -641,8 +649,9 @@ public final class CardSheets {
 
         int guessAt(int place) {
             int seen = marksAt(place);
+            int left = left();
             int lowest = cardAt(place);
-            for (int other = 0; other < left(); other++) {
+            for (int other = 0; other < left; other++) {
                 if (marksAt(other) == seen) {
                     lowest = Math.min(lowest, cardAt(other));
                 }
@@ -651,8 +660,9 @@ public final class CardSheets {
         }
 
         int known() {
+            int left = left();
             int cards = 0;
-            for (int place = 0; place < left(); place++) {
+            for (int place = 0; place < left; place++) {
                 if (canBeAt(place) == 1) {
                     cards++;
                 }
@@ -661,8 +671,9 @@ public final class CardSheets {
         }
 
         int guessedRight() {
+            int left = left();
             int cards = 0;
-            for (int place = 0; place < left(); place++) {
+            for (int place = 0; place < left; place++) {
                 if (guessAt(place) == cardAt(place)) {
                     cards++;
                 }
@@ -671,8 +682,9 @@ public final class CardSheets {
         }
 
         float sumOfChances() {
+            int left = left();
             float sum = 0.0f;
-            for (int place = 0; place < left(); place++) {
+            for (int place = 0; place < left; place++) {
                 int cards = canBeAt(place);
                 if (cards > 0) {
                     sum += 1.0f / cards;
@@ -701,7 +713,9 @@ public final class CardSheets {
             for (int cell = 0; cell < CELLS; cell++) {
                 cards[cell] = cell;
             }
-            copyRow(FIRST_OF_SETTING, settings);
+            for (int which = 0; which < SETTINGS; which++) {
+                settings[which] = at(FIRST_OF_SETTING, which);
+            }
         }
 
         void copyFrom(State other) {

@@ -25,7 +25,8 @@ public final class FaceTests {
         "UNKNOWN -1", "BAD_VALUE -2", "FULL -3", "NOT_POSSIBLE -4", "NONE -5"};
     private static final String[] FORBIDDEN = {
         "->", "::", "import ", "synchronized", "assert ", "finally", "catch", "throw ", "Math.random",
-        "Exact(", "System.currentTime", "System.nanoTime", "System.out", "package "};
+        "Exact(", "System.currentTime", "System.nanoTime", "System.out", "package ", "try ", "instanceof",
+        "hashCode", "equals(", "toString", "var ", "static {", "\"", "protected ", "while (true)", "for (;;)"};
 
     private static int wrong = 0;
 

@@ -402,5 +402,7 @@ public final class TextTests extends Checks {
         acts(others, "other changes of those numbers", others::changeAll, 3);
         first.write("m2=1");
         acts(first, "the no court is no longer there", first::changeAll, 1);
+        last.write("m2=1;m3=1");
+        acts(last, "nor behind this text's changes", last::changeAll, 2);
     }
 }
