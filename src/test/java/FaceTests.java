@@ -10,6 +10,8 @@ import java.util.HashSet;
 import java.util.List;
 import java.util.Set;
 import java.util.TreeSet;
+import java.util.regex.Matcher;
+import java.util.regex.Pattern;
 
 /** The face of the document, no more and no less, and those rules of LANGUAGE.md that show in the code. */
 public final class FaceTests {
@@ -23,10 +25,14 @@ public final class FaceTests {
         "int worstFlaw(int)", "int bestWay()", "int backIn(int)"};
     private static final String[] CONSTANTS = {
         "UNKNOWN -1", "BAD_VALUE -2", "FULL -3", "NOT_POSSIBLE -4", "NONE -5"};
+    private static final int MOST_LINES = 60;
     private static final String[] FORBIDDEN = {
         "->", "::", "import ", "synchronized", "assert ", "finally", "catch", "throw ", "Math.random",
         "Exact(", "System.currentTime", "System.nanoTime", "System.out", "package ", "try ", "instanceof",
         "hashCode", "equals(", "toString", "var ", "static {", "\"", "protected ", "while (true)", "for (;;)"};
+
+    private static final Pattern METHOD =
+        Pattern.compile("( {4}| {8})(?! |if |for |while |do |switch |}).*\\) \\{");
 
     private static int wrong = 0;
 
@@ -107,8 +113,18 @@ public final class FaceTests {
             check(inside.getDeclaredFields().length <= 20, inside + " has too many fields");
             for (Method method : inside.getDeclaredMethods()) {
                 check(method.getParameterCount() <= 7, method + " has too many parameters");
+                check(!bearsPublicName(method), method + " bears the name of a public one");
             }
         }
+    }
+
+    private static boolean bearsPublicName(Method method) {
+        for (String face : METHODS) {
+            if (face.contains(" " + method.getName() + "(")) {
+                return true;
+            }
+        }
+        return false;
     }
 
     private static void source() throws IOException {
@@ -120,5 +136,23 @@ public final class FaceTests {
         for (int k = 0; k < all.length(); k++) {
             check(all.charAt(k) < 128, "a sign beyond 127 at " + k);
         }
+        lengths(code.split("\n"));
+    }
+
+    /** A method begins with a line that is set in once (twice in a class inside) and ends with such a brace. */
+    private static void lengths(String[] lines) {
+        int methods = 0;
+        for (int k = 0; k < lines.length; k++) {
+            Matcher first = METHOD.matcher(lines[k]);
+            if (first.matches()) {
+                methods++;
+                int end = k;
+                while (end < lines.length && !lines[end].equals(first.group(1) + "}")) {
+                    end++;
+                }
+                check(end - k < MOST_LINES, "too long, or without an end: " + lines[k].trim());
+            }
+        }
+        check(methods > METHODS.length, "only " + methods + " methods were found");
     }
 }
